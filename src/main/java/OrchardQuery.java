@@ -1237,8 +1237,8 @@ public final class OrchardQuery {
 
     /** A way through the ROWS of a plan; what is done with a MEETING is its own. */
     private abstract static class Walk {
-        private final Form form;
-        private final Plan plan;
+        final Form form;
+        final Plan plan;
         private final int[] rows;
         private int without;
         private int most;
@@ -1345,8 +1345,6 @@ public final class OrchardQuery {
      * that of its MEETING or, if they are gathered, that of its group.
      */
     private static final class Answer extends Walk {
-        private final Form form;
-        private final Plan plan;
         private final Groups groups;
         private final int[] found;
         private final int[] readsAt;
@@ -1359,8 +1357,6 @@ public final class OrchardQuery {
 
         Answer(Form form, Plan plan) {
             super(form, plan);
-            this.form = form;
-            this.plan = plan;
             groups = new Groups(form);
             found = new int[MOST_MEETINGS];
             readsAt = new int[MOST_MEETINGS];

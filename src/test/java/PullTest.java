@@ -45,7 +45,9 @@ public final class PullTest {
         q.next();
         for (int item : new int[] {-1, 1, Integer.MIN_VALUE, Integer.MAX_VALUE}) {
             CHECKS.refuses(q, "value(" + item + ")", INDEX, () -> q.value(item));
-            CHECKS.refuses(q, "done(" + (item - 1 | 8) + ")", ARGUMENT, () -> q.done(item - 1 | 8));
+        }
+        for (int what : new int[] {-1, 3, Integer.MIN_VALUE, Integer.MAX_VALUE}) {
+            CHECKS.refuses(q, "done(" + what + ")", ARGUMENT, () -> q.done(what));
         }
         done(q, "behind all that", 1, 0, 1);
         CHECKS.is("value() behind all that", q.value(0), 1);
