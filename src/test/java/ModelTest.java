@@ -34,7 +34,11 @@ public final class ModelTest {
         }
     }
 
+    /** What later calls than the 512th answer is free, so none is made. */
     private String both(String name, Call r, Call m) {
+        if (told.size() >= CALLS) {
+            return "throws";
+        }
         String got = outcome(r);
         String due = outcome(m);
         told.add(name + " " + got);
