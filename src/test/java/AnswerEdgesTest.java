@@ -34,6 +34,8 @@ public final class AnswerEdgesTest {
         results(Make.three(), "SELECT 0.0 FROM T0 WHERE 0.0 IS 9", "");
         results(Make.sized(0), "SELECT 0.0 FROM T0", "");
         results(Make.sized(2, 0), "SELECT 0.0 FROM T0 T1", "");
+        results(Make.sized(2), "SELECT 0.0 1.0 2.0 FROM T0 T0 T0",
+                "0 0 0, 0 0 1, 0 1 0, 0 1 1, 1 0 0, 1 0 1, 1 1 0, 1 1 1");
         OrchardQuery full = read(Make.sized(14, 14, 14), "SELECT 0.0 1.0 2.0 FROM T0 T1 T2");
         CHECKS.is("as many as can be", full.results(), 2744);
         CHECKS.is("the last one", full.result(2743, 0) + full.result(2743, 1) + full.result(2743, 2), 39);

@@ -366,19 +366,17 @@ public final class ModelTest {
     }
 
     public static void main(String[] args) {
+        Checks checks = new Checks("ModelTest");
         int runs = args.length > 0 ? Integer.parseInt(args[0]) : RUNS;
         int wrong = 0;
         for (int seed = 0; seed < runs && wrong < 3; seed++) {
             ModelTest test = new ModelTest(seed);
-            if (!test.run()) {
+            checks.is("a run as the model: " + seed, test.run(), true);
+            if (!test.alike) {
                 wrong++;
-                System.out.println("run " + seed + ":");
                 System.out.println("  " + String.join("\n  ", test.told));
             }
         }
-        System.out.println(runs + " random runs, " + wrong + " not alike");
-        if (wrong != 0) {
-            System.exit(1);
-        }
+        checks.end();
     }
 }

@@ -264,6 +264,20 @@ public final class PlanEdgesTest {
         drawn("0.0 IS 0.0, 0.0 IS 1.0, 0.0 IS 5", "1.0 IS 5");
     }
 
+    /** Two SEATS of one TABLE have no COLUMN in common. */
+    private static void otherTokensOfOneTable() {
+        String head = "SELECT 0.0 FROM T0 T0 WHERE ";
+        OrchardQuery join = three(head + "0.0 IS 1.0 AND 0.0 IS 5");
+        CHECKS.is("TRUE", join.rewrite(TRUE), 0);
+        CHECKS.is("DRAWN", join.rewrite(DRAWN), 1);
+        CHECKS.is("what is drawn", conditions(join, 2), "1.0 IS 5");
+        OrchardQuery apart = three(head + "0.0 IS 5 AND 1.0 IS 6 AND 0.1 IS 1.1");
+        CHECKS.is("NEVER of other numbers", apart.rewrite(NEVER), 0);
+        CHECKS.is("DRAWN", apart.rewrite(DRAWN), 0);
+        OrchardQuery signs = three(head + "0.0 ISNOT 1.0 AND 0.1 LESS 1.1");
+        CHECKS.is("NEVER of IS NOT and LESS", signs.rewrite(NEVER), 0);
+    }
+
     private static void drawnFromIsAlone() {
         drawn("0.0 ISNOT 0.1, 0.0 IS 5", "");
         drawn("0.0 LESS 0.1, 0.0 IS 5", "");
@@ -400,6 +414,9 @@ public final class PlanEdgesTest {
         CHECKS.is("isEmpty()", q.isEmpty(), true);
         q.row(0, 1, 1, 1);
         CHECKS.is("it stays EMPTY behind row()", q.isEmpty(), true);
+        q.drop(0, 0);
+        q.table(1);
+        CHECKS.is("behind drop() and table()", q.isEmpty(), true);
         q.swap(0, 1);
         q.best();
         CHECKS.is("behind swap() and best()", q.isEmpty(), true);
@@ -671,6 +688,7 @@ public final class PlanEdgesTest {
         CHECKS.sentence("either way round", PlanEdgesTest::drawnEitherWayRound);
         CHECKS.sentence("COLUMNS, other ones, that is other TOKENS",
                 PlanEdgesTest::drawnFromOtherColumns);
+        CHECKS.sentence("other ones, that is other TOKENS", PlanEdgesTest::otherTokensOfOneTable);
         CHECKS.sentence("1 DRAWN: for the first two CONDITIONS x IS y", PlanEdgesTest::drawnFromIsAlone);
         CHECKS.sentence("for which there is no CONDITION y IS n", PlanEdgesTest::thereIsNoSuchCondition);
         CHECKS.sentence("by the number of the first and then of the second",
