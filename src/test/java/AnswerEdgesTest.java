@@ -193,6 +193,29 @@ public final class AnswerEdgesTest {
         CHECKS.is("the last of four", four.result(0, 3), 6);
     }
 
+    /** Whatever is asked first behind a change, it is of what is now. */
+    private static void whicheverIsAskedFirst() {
+        String[] asked = {"result 1 0", "results", "wouldDo 0", "share", "digest", "meetingsWithout 0",
+            "result 3 0"};
+        String[] changes = {"read", "row 0 0 0 0", "drop 0 0", "swap 0 1", "rewrite 2", "best", "open; next"};
+        for (String call : asked) {
+            for (String change : changes) {
+                OrchardQuery q = three("SELECT 1.0 FROM T0 T1 WHERE 1.2 ISNOT 8");
+                OrchardQuery other = three("SELECT 1.0 FROM T0 T1 WHERE 1.2 ISNOT 8");
+                q.digest();
+                Script.run(q, change);
+                Script.run(other, change);
+                String got = Script.call(q, call);
+                other.digest();
+                CHECKS.is(call + " behind " + change, got, Script.call(other, call));
+            }
+        }
+        OrchardQuery q = three("SELECT 0.0 FROM T0");
+        CHECKS.is("result() behind read()", q.result(0, 0), 1);
+        q.drop(0, 0);
+        CHECKS.is("result() behind drop()", q.result(0, 0), 2);
+    }
+
     private static void asTheTablesAreNow() {
         OrchardQuery q = three("SELECT 0.0 FROM T0 WHERE 0.0 LESS 5");
         CHECKS.is("at first", Make.results(q), "1, 2, 3");
@@ -427,6 +450,30 @@ public final class AnswerEdgesTest {
                 sum("3 8 1 3 0 " + tables + "-1 0 2 3 1 6 0 6 15 0 0 0 0 0 0"));
     }
 
+    /** As many calls as an object is used for; the last ones answer as the first ones do. */
+    private static void theLastOf512Calls() {
+        OrchardQuery q = new OrchardQuery();
+        q.table(1);
+        q.row(0, 5, 0, 0);
+        for (int token : Make.tokens("SELECT 0.0 FROM T0")) {
+            q.token(token);
+        }
+        q.read();
+        int calls = 7;
+        for (; calls + 6 <= 511; calls += 6) {
+            q.row(0, 6, 0, 0);
+            q.swap(0, 0);
+            q.open();
+            q.next();
+            q.next();
+            CHECKS.is("drop()", q.drop(0, 1), 1);
+        }
+        for (; calls < 511; calls++) {
+            q.open();
+        }
+        CHECKS.is("the 512th call", q.digest(), sum("1 4 1 1 0 1 5 1 -1 0 0 1 1 0 0 0 1 5 1 0"));
+    }
+
     public static void main(String[] args) {
         CHECKS.sentence("If there is no GROUP, and no ITEM is COUNT or SUM, each MEETING is one.",
                 AnswerEdgesTest::eachMeetingIsOne);
@@ -448,6 +495,7 @@ public final class AnswerEdgesTest {
 
         CHECKS.sentence("if there is no such RESULT, or ITEM", AnswerEdgesTest::noSuchResultOrItem);
         CHECKS.sentence("Returns how many RESULTS it has in all.", AnswerEdgesTest::asTheTablesAreNow);
+        CHECKS.sentence("Returns its VALUE there.", AnswerEdgesTest::whicheverIsAskedFirst);
         CHECKS.sentence("nothing is changed", AnswerEdgesTest::nothingIsChanged);
         CHECKS.sentence("if what is neither", AnswerEdgesTest::whatOfWouldDo);
         CHECKS.sentence("with the PULL that finds none", AnswerEdgesTest::withThePullThatFindsNone);
@@ -467,6 +515,7 @@ public final class AnswerEdgesTest {
         CHECKS.sentence("the ITEMS of the first 10 RESULTS (or all)", AnswerEdgesTest::theFirstTenOrAll);
         CHECKS.sentence("for each place of the ORDER order() and guess()",
                 AnswerEdgesTest::eachPlaceOfTheOrder);
+        CHECKS.sentence("An object is used for at most 512 calls", AnswerEdgesTest::theLastOf512Calls);
         CHECKS.end();
     }
 }

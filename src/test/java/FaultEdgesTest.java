@@ -271,6 +271,11 @@ public final class FaultEdgesTest {
         fault(10, 1, "SELECT 2.0 FROM T0 T1");
         fault(10, 1, "SELECT 3.0 FROM T0 T1 T2");
         good("SELECT 0.0 FROM T1", "SELECT 1.0 FROM T0 T1", "SELECT 2.0 FROM T0 T1 T2");
+        OrchardQuery q = Make.three();
+        fault(q, 0, -1, "SELECT 2.0 FROM T0 T1 T2");
+        fault(q, 10, 1, "SELECT 2.0 FROM T0 T1");
+        fault(q, 10, 1, "SELECT 1.0 FROM T0");
+        fault(q, 10, 7, "SELECT 0.0 FROM T0 WHERE 0.0 IS 1.0");
     }
 
     private static void hasNoSuchColumn() {

@@ -172,6 +172,16 @@ public final class PlanEdgesTest {
         }
     }
 
+    private static void cutTowardsZero() {
+        OrchardQuery q = Make.sized(6, 11);
+        Make.read(q, "SELECT 0.0 FROM T0 T1 WHERE 0.0 IS 1 AND 1.0 IS 1");
+        CHECKS.is("1000 / 6 and 1000 / 11", each(q, 5), "166 90");
+        // 66 * 166 / 1000 = 10.956, 10 * 90 / 1000 = 0.9
+        CHECKS.is("guess(1)", q.guess(1), 0);
+        Make.read(q, "SELECT 0.0 FROM T0 T1 WHERE 0.0 IS 1");
+        CHECKS.is("guess(1) of one", q.guess(1), 10);
+    }
+
     private static void theGreaterVarietyOfBoth() {
         OrchardQuery q = Make.sized(3, 7, 0);
         Make.read(q, "SELECT 0.0 FROM T0 T1 T2 WHERE 0.0 IS 1.0 AND 1.0 IS 0.0 AND 0.0 ISNOT 1.0"
@@ -488,8 +498,16 @@ public final class PlanEdgesTest {
             outside(q, "swap(last, ..)", n, place -> q.swap(last, place));
             outside(q, "swap() of both", n, place -> q.swap(place, place));
             outside(q, "order()", n, q::order);
-            outside(q, "guess()", n, q::guess);
             CHECKS.is("order() of the last", q.order(last), last);
+        }
+    }
+
+    private static void noSuchLevel() {
+        String[] from = {"T2", "T2 T2", "T2 T2 T2"};
+        for (int n = 1; n <= 3; n++) {
+            OrchardQuery q = three("SELECT 0.0 FROM " + from[n - 1]);
+            outside(q, "guess()", n, q::guess);
+            CHECKS.is("guess() of the last", q.guess(n - 1), 1 << n);
         }
     }
 
@@ -674,6 +692,7 @@ public final class PlanEdgesTest {
         CHECKS.sentence("if what is not 0 to 5", PlanEdgesTest::whatOfACondition);
         CHECKS.sentence("of IS with a NUMBER 1000 / VARIETY of the COLUMN",
                 PlanEdgesTest::partOfIsAndIsNot);
+        CHECKS.sentence("/ is cut towards 0.", PlanEdgesTest::cutTowardsZero);
         CHECKS.sentence("with two COLUMNS 1000 / the greater VARIETY of both",
                 PlanEdgesTest::theGreaterVarietyOfBoth);
         CHECKS.sentence("1000 in both cases, if the VARIETY is 0", PlanEdgesTest::ifTheVarietyIsZero);
@@ -727,6 +746,7 @@ public final class PlanEdgesTest {
 
         CHECKS.sentence("that of the one below (1 below 0) times the ROWS",
                 PlanEdgesTest::theLeastAndTheGreatestGuess);
+        CHECKS.sentence("if there is no such LEVEL", PlanEdgesTest::noSuchLevel);
         CHECKS.sentence("by numbers, times its PART, / 1000", PlanEdgesTest::cutAtEachByNumbers);
         CHECKS.sentence("for each CONDITION of this LEVEL", PlanEdgesTest::ofThisLevelAlone);
         CHECKS.sentence("0, if it is EMPTY", PlanEdgesTest::zeroIfItIsEmpty);

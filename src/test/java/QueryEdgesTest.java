@@ -221,6 +221,23 @@ public final class QueryEdgesTest {
         CHECKS.noIndex(q, "result(0, 1)", () -> q.result(0, 1));
     }
 
+    private static void noConditionIsLeftOfTheOneBefore() {
+        String[] befores = {"0.0 IS 0.0 AND 0.0 IS 0.0 AND 0.0 IS 0.0",
+            "0.0 IS 0.1 AND 0.0 IS 1 AND 0.1 IS 0.0", "0.1 IS 1 AND 0.0 IS 2 AND 0.0 IS 0.1",
+            "0.0 IS 1 AND 0.0 IS 2 AND 0.0 IS 3", "0.0 LESS 0.0 AND 0.0 ISNOT 0.0 AND 0.0 LESS 0.0"};
+        String[] texts = {"", " WHERE 0.0 IS 1", " WHERE 0.0 IS 1 AND 0.0 IS 1", " WHERE 0.0 IS 0.1"};
+        for (String before : befores) {
+            for (String text : texts) {
+                OrchardQuery q = Make.three();
+                Make.read(q, "SELECT 0.0 FROM T0 T1 WHERE " + before + " AND " + before);
+                Make.read(q, "SELECT 0.0 FROM T0" + text);
+                for (int rule = 0; rule <= 3; rule++) {
+                    CHECKS.is("rewrite(" + rule + ") of" + text + " behind " + before, q.rewrite(rule), 0);
+                }
+            }
+        }
+    }
+
     // ---- Promise 9
 
     private static void minusOneWithoutAFault() {
@@ -394,6 +411,7 @@ public final class QueryEdgesTest {
         CHECKS.sentence("with a FAULT it is not READ", QueryEdgesTest::withAFaultItIsNotRead);
         CHECKS.sentence("Its PLAN is as at first.", QueryEdgesTest::itsPlanIsAsAtFirst);
         CHECKS.sentence("READS the QUERY", QueryEdgesTest::nothingIsLeftOfTheOneBefore);
+        CHECKS.sentence("READS the QUERY", QueryEdgesTest::noConditionIsLeftOfTheOneBefore);
 
         CHECKS.sentence("-1 if there was none", QueryEdgesTest::minusOneWithoutAFault);
         CHECKS.sentence("read() was not called since token() or clear()",
