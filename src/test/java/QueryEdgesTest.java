@@ -238,6 +238,14 @@ public final class QueryEdgesTest {
         }
     }
 
+    private static void nothingThatIsLeftIsThere() {
+        OrchardQuery q = Make.three();
+        Make.read(q, "SELECT 0.0 FROM T0 WHERE 0.1 IS 1 AND 0.1 IS 1 AND 0.1 IS 1 AND 0.1 IS 1");
+        Make.read(q, "SELECT 0.0 FROM T0 WHERE 0.0 IS 0.1 AND 0.0 IS 1");
+        CHECKS.is("DRAWN, as there was such a condition before", q.rewrite(1), 1);
+        CHECKS.is("its left side", q.condition(2, 0), 101);
+    }
+
     // ---- Promise 9
 
     private static void minusOneWithoutAFault() {
@@ -412,6 +420,7 @@ public final class QueryEdgesTest {
         CHECKS.sentence("Its PLAN is as at first.", QueryEdgesTest::itsPlanIsAsAtFirst);
         CHECKS.sentence("READS the QUERY", QueryEdgesTest::nothingIsLeftOfTheOneBefore);
         CHECKS.sentence("READS the QUERY", QueryEdgesTest::noConditionIsLeftOfTheOneBefore);
+        CHECKS.sentence("READS the QUERY", QueryEdgesTest::nothingThatIsLeftIsThere);
 
         CHECKS.sentence("-1 if there was none", QueryEdgesTest::minusOneWithoutAFault);
         CHECKS.sentence("read() was not called since token() or clear()",
