@@ -28,6 +28,18 @@ public final class AnswerEdgesTest {
 
     // ---- RESULTS
 
+    private static void aValueForEachItem() {
+        String[] items = {"0.0", "0.1", "0.0", "1.2"};
+        String[] dues = {"1, 2", "1 10, 2 20", "1 10 1, 2 20 2", "1 10 1 7, 2 20 2 9"};
+        String text = "SELECT";
+        for (int n = 1; n <= 4; n++) {
+            text = text + " " + items[n - 1];
+            results(Make.three(), text + " FROM T0 T1 WHERE 0.0 IS 1.0 AND 1.1 IS 5", dues[n - 1]);
+        }
+        results(Make.three(), "SELECT COUNT COUNT SUM 0.0 0.1 FROM T0 GROUP 0.1", "2 2 4 10, 1 1 2 20");
+        results(Make.three(), "SELECT SUM 0.0 SUM 0.1 SUM 0.0 FROM T0", "6 40 6");
+    }
+
     private static void eachMeetingIsOne() {
         results(Make.three(), "SELECT 0.1 FROM T0", "10, 20, 10");
         results(Make.three(), "SELECT 0.0 1.0 FROM T0 T2 WHERE 0.1 IS 10", "1 5, 1 6, 3 5, 3 6");
@@ -173,6 +185,29 @@ public final class AnswerEdgesTest {
 
     // ---- Promises 23 and 24
 
+    private static void eachPlaceAndItem() {
+        OrchardQuery q = three("SELECT 0.0 1.2 0.1 2.0 FROM T0 T1 T2 WHERE 0.0 IS 1.0 AND 1.1 IS 2.0");
+        int[][] dues = {{1, 7, 10, 5}, {1, 8, 10, 6}, {2, 9, 20, 5}};
+        CHECKS.is("results()", q.results(), dues.length);
+        for (int item = 3; item >= 0; item--) {
+            for (int place = 2; place >= 0; place--) {
+                CHECKS.is("result(" + place + ", " + item + ")", q.result(place, item), dues[place][item]);
+            }
+        }
+    }
+
+    /** How far one has pulled is nothing to what would be. */
+    private static void whereverOneIs() {
+        OrchardQuery q = three("SELECT 0.0 FROM T0 T1 WHERE 0.0 IS 1.0 AND 1.1 IS 5");
+        String due = "2 15 15";
+        CHECKS.is("before open()", q.results() + " " + q.wouldDo(0) + " " + q.wouldDo(1), due);
+        q.open();
+        for (int turn = 0; turn < 4; turn++) {
+            CHECKS.is("behind " + turn, q.results() + " " + q.wouldDo(0) + " " + q.wouldDo(1), due);
+            CHECKS.is("next()", q.next(), turn < 2);
+        }
+    }
+
     private static void noSuchResultOrItem() {
         OrchardQuery none = three("SELECT 0.0 FROM T0 WHERE 0.0 IS 9");
         CHECKS.is("results()", none.results(), 0);
@@ -303,6 +338,25 @@ public final class AnswerEdgesTest {
         twelve.rewrite(1);
         outside(twelve, "meetingsWithout() of twelve", 12, twelve::meetingsWithout);
         CHECKS.is("without the last of twelve", twelve.meetingsWithout(11), 0);
+    }
+
+    /** Those that say the same, or that were drawn from it, are asked as before. */
+    private static void withoutThatOneAlone() {
+        OrchardQuery twice = three("SELECT 0.0 FROM T0 WHERE 0.0 IS 1 AND 0.0 IS 1 AND 0.1 IS 10");
+        CHECKS.is("without one of two alike", twice.meetingsWithout(0), 1);
+        CHECKS.is("without the other", twice.meetingsWithout(1), 1);
+        CHECKS.is("without the third", twice.meetingsWithout(2), 1);
+        OrchardQuery drawn = three("SELECT 0.0 FROM T0 T1 WHERE 0.0 IS 1.0 AND 0.0 IS 1");
+        CHECKS.is("without the join", drawn.meetingsWithout(0), 4);
+        CHECKS.is("without the number", drawn.meetingsWithout(1), 3);
+        drawn.rewrite(1);
+        CHECKS.is("without the join, behind DRAWN", drawn.meetingsWithout(0), 2);
+        CHECKS.is("without the number, behind DRAWN", drawn.meetingsWithout(1), 2);
+        CHECKS.is("without what is drawn", drawn.meetingsWithout(2), 2);
+        drawn.rewrite(2);
+        drawn.swap(0, 1);
+        CHECKS.is("wherever it is asked", drawn.meetingsWithout(0), 2);
+        CHECKS.is("it is there still", drawn.many(4), 3);
     }
 
     private static void meetingsAreNotCutByLimit() {
@@ -450,6 +504,70 @@ public final class AnswerEdgesTest {
                 sum("3 8 1 3 0 " + tables + "-1 0 2 3 1 6 0 6 15 0 0 0 0 0 0"));
     }
 
+    private static void manyOfEach() {
+        OrchardQuery q = Make.tables(1, 2);
+        CHECKS.is("tables", q.digest(), sum("2 0 0 0 0 0 0 0 0 0 -1"));
+        Make.write(q, "SELECT 0.0 COUNT FROM T0 T1 T1 WHERE 0.0 IS 7 LIMIT 0");
+        CHECKS.is("tokens", q.digest(), sum("2 13 0 0 0 0 0 0 0 0 -1"));
+        q.read();
+        CHECKS.is("items, seats and conditions", q.digest(), sum("2 13 2 3 1 0 0 0 0 0 -1"
+                + " 0 100 9 1007 2 0 1000 0 0 1 0 2 0 0 0 0 0 0 0 0"));
+    }
+
+    private static void eachTableRowByRow() {
+        OrchardQuery q = Make.tables(2, 1, 3, 1, 2);
+        q.row(0, 1, 2, 3);
+        q.row(0, 3, 2, 3);
+        q.row(0, 3, 2, 3);
+        q.row(2, 7, 8, 9);
+        q.row(2, 7, 6, 5);
+        q.row(4, -7, 0, 0);
+        CHECKS.is("five tables", q.digest(), sum("5 0 0 0 0 3 1 2 3 2 3 2 2 1 0 0"
+                + " 2 7 8 9 7 6 5 1 2 2 0 0 1 -7 0 1 1 -1"));
+        q.drop(0, 0);
+        CHECKS.is("a row less", q.digest(), sum("5 0 0 0 0 2 3 2 3 2 1 1 0 0"
+                + " 2 7 8 9 7 6 5 1 2 2 0 0 1 -7 0 1 1 -1"));
+    }
+
+    private static void eachOfTheConditions() {
+        OrchardQuery q = Make.tables(2);
+        q.row(0, 3, 3, 0);
+        q.row(0, 4, 3, 0);
+        Make.read(q, "SELECT COUNT FROM T0 T0 WHERE 0.0 IS 1.1 AND 1.1 IS 3 AND 0.1 ISNOT 999 LIMIT 0");
+        String tables = "2 3 3 4 3 2 1 -1 ";
+        CHECKS.is("three conditions", q.digest(), sum("1 19 1 2 3 " + tables + "0 100 9 111 1 1 500"
+                + " 111 9 1003 1 1 1000 101 10 1999 1 0 0 0 2 1 0 6 0 0 0 0 0 0"));
+        q.rewrite(1);
+        q.rewrite(2);
+        CHECKS.is("four conditions", q.digest(), sum("1 19 1 2 4 " + tables + "0 100 9 111 1 1 500"
+                + " 111 9 1003 1 1 1000 101 10 1999 0 0 0 100 9 1003 0 0 500 0 0 1 0 2 0 0 0 0 0 0"));
+    }
+
+    /** Each call that many times, as far as there are 512; then all is as in the model. */
+    private static void each512Times() {
+        String[] calls = {"table 1", "row 0 1 2 3; drop 0 1", "row 0 1000 0 0", "drop 0 9", "variety 0 0",
+            "token 12", "token 100; clear", "read", "faultAt", "many 4", "condition 0 5", "rewrite 1",
+            "rewrite 2; swap 0 1", "swap 1 0", "best", "order 1", "guess 1", "cost", "isEmpty", "open",
+            "next", "value 0", "done 1", "results", "result 1 0", "wouldDo 1", "meetingsWithout 0", "share",
+            "digest", "open; next; next; next; done 0"};
+        String begun = "table 2; row 0 1 2 0; row 0 3 4 0; query SELECT 0.0 1.1 FROM T0 T0"
+                + " WHERE 0.0 IS 1.0; read; open; next";
+        String end = "next; value 1; open; rewrite 1; best; condition 0 3; guess 1; share; wouldDo 0;"
+                + " row 0 3 5 0; results; result 0 0; token 6; token 1001; read; results; faultAt; digest";
+        for (String call : calls) {
+            OrchardQuery q = new OrchardQuery();
+            Model model = new Model();
+            int made = 3 + 1 + 10 + 3;
+            int more = call.split(";").length;
+            CHECKS.is(begun, Script.run(q, begun), Script.run(model, begun));
+            for (int i = made; i + more + end.split(";").length <= 512; i += more) {
+                Script.run(q, call);
+                Script.run(model, call);
+            }
+            CHECKS.is("behind " + call, Script.run(q, end), Script.run(model, end));
+        }
+    }
+
     /** As many calls as an object is used for; the last ones answer as the first ones do. */
     private static void theLastOf512Calls() {
         OrchardQuery q = new OrchardQuery();
@@ -475,47 +593,102 @@ public final class AnswerEdgesTest {
     }
 
     public static void main(String[] args) {
+        results();
+        resultsAndResult();
+        wouldDoAndMeetings();
+        shareAndChecksum();
+        checksum();
+        CHECKS.end();
+    }
+
+    private static void results() {
+        CHECKS.under("What it is");
+        CHECKS.sentence("An object is used for at most 512 calls after it has been made;"
+                + " what later calls answer is free.", AnswerEdgesTest::theLastOf512Calls);
+        CHECKS.sentence("An object is used for at most 512 calls", AnswerEdgesTest::each512Times);
+
+        CHECKS.under("Terms");
+        CHECKS.sentence("A RESULT has a VALUE for each ITEM.", AnswerEdgesTest::aValueForEachItem);
         CHECKS.sentence("If there is no GROUP, and no ITEM is COUNT or SUM, each MEETING is one.",
                 AnswerEdgesTest::eachMeetingIsOne);
         CHECKS.sentence("Otherwise there is one for each VALUE of GROUP",
                 AnswerEdgesTest::oneForEachValueOfGroup);
-        CHECKS.sentence("each VALUE of GROUP that a MEETING has", AnswerEdgesTest::thatAMeetingHas);
+        CHECKS.sentence("that a MEETING has,", AnswerEdgesTest::thatAMeetingHas);
         CHECKS.sentence("the smallest first (without GROUP", AnswerEdgesTest::theSmallestFirst);
-        CHECKS.sentence("without GROUP there is one in any case",
+        CHECKS.sentence("(without GROUP there is one in any case):",
                 AnswerEdgesTest::withoutGroupThereIsOneInAnyCase);
-        CHECKS.sentence("a COLUMN that of its first MEETING (0 without any)",
-                AnswerEdgesTest::aColumnThatOfItsFirstMeeting);
-        CHECKS.sentence("COUNT is how many MEETINGS it has, SUM the sum of the COLUMN there",
+        CHECKS.sentence("COUNT is how many MEETINGS it has, SUM the sum of the COLUMN there,",
                 AnswerEdgesTest::theGreatestAndTheLeastSum);
-        CHECKS.sentence("With ORDER they are brought in order by that ITEM, the smallest first",
+        CHECKS.sentence("a COLUMN that of its first MEETING (0 without any).",
+                AnswerEdgesTest::aColumnThatOfItsFirstMeeting);
+        CHECKS.sentence("With ORDER they are brought in order by that ITEM, the smallest first,",
                 AnswerEdgesTest::inOrderByThatItem);
-        CHECKS.sentence("those that are alike as they were", AnswerEdgesTest::thoseAlikeAsTheyWere);
-        CHECKS.sentence("with LIMIT there are no more than so many, the first ones",
+        CHECKS.sentence("those that are alike as they were;", AnswerEdgesTest::thoseAlikeAsTheyWere);
+        CHECKS.sentence("with LIMIT there are no more than so many, the first ones.",
                 AnswerEdgesTest::noMoreThanLimit);
+        CHECKS.sentence("what would be (nothing is changed).", AnswerEdgesTest::nothingIsChanged);
+    }
 
-        CHECKS.sentence("if there is no such RESULT, or ITEM", AnswerEdgesTest::noSuchResultOrItem);
+    private static void resultsAndResult() {
+        CHECKS.under("Promise 23: results");
         CHECKS.sentence("Returns how many RESULTS it has in all.", AnswerEdgesTest::asTheTablesAreNow);
+        CHECKS.sentence("how many RESULTS it has in all.", AnswerEdgesTest::whereverOneIs);
+
+        CHECKS.under("Promise 24: result");
+        CHECKS.sentence("`place`: the place of a RESULT, from 0", AnswerEdgesTest::eachPlaceAndItem);
+        CHECKS.sentence("`item`: an ITEM", AnswerEdgesTest::eachPlaceAndItem);
         CHECKS.sentence("Returns its VALUE there.", AnswerEdgesTest::whicheverIsAskedFirst);
-        CHECKS.sentence("nothing is changed", AnswerEdgesTest::nothingIsChanged);
-        CHECKS.sentence("if what is neither", AnswerEdgesTest::whatOfWouldDo);
-        CHECKS.sentence("with the PULL that finds none", AnswerEdgesTest::withThePullThatFindsNone);
+        CHECKS.sentence("Throws `IndexOutOfBoundsException` if there is no such RESULT, or ITEM",
+                AnswerEdgesTest::noSuchResultOrItem);
+    }
 
-        CHECKS.sentence("if there is no such CONDITION", AnswerEdgesTest::withoutIt);
+    private static void wouldDoAndMeetings() {
+        CHECKS.under("Promise 25: wouldDo");
+        CHECKS.sentence("`what`: 0 READS, 1 CHECKS", AnswerEdgesTest::whatOfWouldDo);
+        CHECKS.sentence("Returns how many there would be, if one PULLED from the beginning till there was"
+                + " no RESULT any more (with the PULL that finds none).",
+                AnswerEdgesTest::withThePullThatFindsNone);
+        CHECKS.sentence("if one PULLED from the beginning", AnswerEdgesTest::whereverOneIs);
+        CHECKS.sentence("Throws `IllegalArgumentException` if what is neither",
+                AnswerEdgesTest::whatOfWouldDo);
+
+        CHECKS.under("Promise 26: meetingsWithout");
+        CHECKS.sentence("`condition`: a CONDITION", AnswerEdgesTest::withoutIt);
         CHECKS.sentence("Returns how many MEETINGS there would be without it",
-                AnswerEdgesTest::meetingsAreNotCutByLimit);
-        CHECKS.sentence("as if the PLAN was not EMPTY", AnswerEdgesTest::asIfNotEmpty);
-        CHECKS.sentence("0 if that is 0", AnswerEdgesTest::zeroIfThatIsZero);
-        CHECKS.sentence("of all that there would be without CONDITIONS, not cut",
-                AnswerEdgesTest::notCut);
+                AnswerEdgesTest::withoutThatOneAlone);
+        CHECKS.sentence("how many MEETINGS there would be", AnswerEdgesTest::meetingsAreNotCutByLimit);
+        CHECKS.sentence("(as if the PLAN was not EMPTY).", AnswerEdgesTest::asIfNotEmpty);
+        CHECKS.sentence("Throws `IndexOutOfBoundsException` if there is no such CONDITION",
+                AnswerEdgesTest::withoutIt);
+    }
 
-        CHECKS.sentence("A number d starts with 58086", AnswerEdgesTest::ofNothing);
-        CHECKS.sentence("which wraps around as a 64-bit integer", AnswerEdgesTest::itWrapsAround);
-        CHECKS.sentence("if it is READ", AnswerEdgesTest::ifItIsRead);
-        CHECKS.sentence("isEmpty() (1 or 0)", AnswerEdgesTest::isEmptyIsOneOrZero);
-        CHECKS.sentence("the ITEMS of the first 10 RESULTS (or all)", AnswerEdgesTest::theFirstTenOrAll);
-        CHECKS.sentence("for each place of the ORDER order() and guess()",
+    private static void shareAndChecksum() {
+        CHECKS.under("Promise 27: share");
+        CHECKS.sentence("Returns how many MEETINGS there are,", AnswerEdgesTest::meetingsAreNotCutByLimit);
+        CHECKS.sentence("of all that there would be without CONDITIONS, not cut;",
+                AnswerEdgesTest::notCut);
+        CHECKS.sentence("0 if that is 0.", AnswerEdgesTest::zeroIfThatIsZero);
+
+        CHECKS.under("Promise 28: digest");
+        CHECKS.sentence("Computes a checksum. A number d starts with 58086;", AnswerEdgesTest::ofNothing);
+        CHECKS.sentence("for each of the following numbers x, d becomes d * 31 + x,"
+                + " which wraps around as a 64-bit integer:", AnswerEdgesTest::itWrapsAround);
+        CHECKS.sentence("Returns d.", AnswerEdgesTest::itWrapsAround);
+    }
+
+    private static void checksum() {
+        CHECKS.sentence("many() of 0 to 4;", AnswerEdgesTest::manyOfEach);
+        CHECKS.sentence("for each TABLE how many ROWS it has, all VALUES, ROW by ROW,"
+                + " and variety() of each COLUMN;", AnswerEdgesTest::eachTableRowByRow);
+        CHECKS.sentence("faultAt();", AnswerEdgesTest::ofNothing);
+        CHECKS.sentence("if it is READ:", AnswerEdgesTest::ifItIsRead);
+        CHECKS.sentence("isEmpty() (1 or 0),", AnswerEdgesTest::isEmptyIsOneOrZero);
+        CHECKS.sentence("for each CONDITION condition() of 0 to 5,", AnswerEdgesTest::eachOfTheConditions);
+        CHECKS.sentence("for each place of the ORDER order() and guess(),",
                 AnswerEdgesTest::eachPlaceOfTheOrder);
-        CHECKS.sentence("An object is used for at most 512 calls", AnswerEdgesTest::theLastOf512Calls);
-        CHECKS.end();
+        CHECKS.sentence("cost(), done() of 0 to 2,", AnswerEdgesTest::ifItIsRead);
+        CHECKS.sentence("results(), the ITEMS of the first 10 RESULTS (or all),",
+                AnswerEdgesTest::theFirstTenOrAll);
+        CHECKS.sentence("wouldDo() of 0 and 1.", AnswerEdgesTest::ifItIsRead);
     }
 }

@@ -3,6 +3,7 @@ final class Checks {
     private static final long MOST_MILLIS = 300_000;
     private static final int MOST_TOLD = 40;
     private final String name;
+    private String heading = "";
     private String about = "";
     private int sentences;
     private int made;
@@ -28,10 +29,18 @@ final class Checks {
         guard.start();
     }
 
-    /** One sentence of the document, in its own words, and what would fail if it were broken. */
+    /** The headings of the document under each of which the sentences stand that are tested then. */
+    void under(String... headings) {
+        heading = String.join(", ", headings);
+    }
+
+    /**
+     * One sentence of the document, or a piece of it, in its own words, and what would fail if it were
+     * broken. DocumentTest looks at these words, and whether any of the document's are left over.
+     */
     void sentence(String words, Runnable test) {
         sentences++;
-        about = " [" + words + "]";
+        about = " [" + heading + ": " + words + "]";
         int before = made;
         try {
             test.run();

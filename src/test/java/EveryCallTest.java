@@ -161,10 +161,12 @@ public final class EveryCallTest {
     }
 
     public static void main(String[] args) {
+        CHECKS.under("Terms");
         CHECKS.sentence("A method that throws an exception changes nothing.",
                 EveryCallTest::changesNothing);
-        CHECKS.sentence("Nothing is promised beyond the answers and state changes described above",
-                EveryCallTest::twoOfThem);
+        CHECKS.under("Not promised");
+        CHECKS.sentence("Nothing is promised beyond the answers and state changes described above,"
+                + " and nothing about an object after its 512th call.", EveryCallTest::twoOfThem);
         CHECKS.end();
     }
 }

@@ -93,6 +93,55 @@ public final class FaultEdgesTest {
 
     // ---- 4: TABLES
 
+    private static void oneToFourItems() {
+        fault(2, 1, "SELECT FROM T0");
+        String items = "";
+        for (int n = 1; n <= 4; n++) {
+            items = items + (n % 2 == 0 ? " SUM 0.0" : n == 1 ? " 0.1" : " COUNT");
+            OrchardQuery q = Make.three();
+            fault(q, 0, -1, "SELECT" + items + " FROM T0");
+            CHECKS.is("items", q.many(2), n);
+            fault(3, Make.tokens("SELECT" + items).length, "SELECT" + items + " T0");
+        }
+        fault(3, 7, "SELECT" + items + " 0.0 FROM T0");
+        fault(1, 0, items.trim() + " FROM T0");
+    }
+
+    private static void whatAnItemIs() {
+        OrchardQuery q = Make.three();
+        fault(q, 0, -1, "SELECT 0.1 FROM T0");
+        CHECKS.is("a COLUMN", q.many(2), 1);
+        fault(q, 0, -1, "SELECT COUNT FROM T0");
+        CHECKS.is("COUNT", q.many(2), 1);
+        fault(q, 0, -1, "SELECT SUM 0.1 FROM T0");
+        CHECKS.is("SUM and a COLUMN", q.many(2), 1);
+        fault(q, 0, -1, "SELECT COUNT 0.1 FROM T0");
+        CHECKS.is("COUNT, and a COLUMN", q.many(2), 2);
+        fault(q, 0, -1, "SELECT SUM 0.0 0.1 FROM T0");
+        CHECKS.is("SUM and a COLUMN, and a COLUMN", q.many(2), 2);
+        fault(2, 2, "SELECT SUM FROM T0");
+        fault(2, 1, "SELECT 0 FROM T0");
+        fault(2, 1, "SELECT T0 FROM T0");
+    }
+
+    private static void whatAConditionIs() {
+        OrchardQuery q = Make.three();
+        int sign = 9;
+        for (String word : new String[] {"IS", "ISNOT", "LESS"}) {
+            for (String right : new String[] {"0.0", "0.1", "1.2", "0", "7", "999"}) {
+                fault(q, 0, -1, "SELECT 0.0 FROM T0 T1 WHERE 0.1 " + word + " " + right);
+                CHECKS.is("its left side", q.condition(0, 0), 101);
+                CHECKS.is("its sign", q.condition(0, 1), sign);
+                CHECKS.is("its right side", q.condition(0, 2), Make.tokens(right)[0]);
+            }
+            fault(5, 5, HEAD + " WHERE 1 " + word + " 0.0");
+            sign++;
+        }
+        fault(7, 7, HEAD + " WHERE 0.0 IS ISNOT 1");
+        fault(7, 7, HEAD + " WHERE 0.0 IS COUNT");
+        fault(5, 5, HEAD + " WHERE SUM 0.0 IS 1");
+    }
+
     private static void aTableHasToBeThere() {
         allOf(4, "SELECT 0.0 FROM", allBut("T0"));
         fault(4, 3, "SELECT 0.0 FROM T3");
@@ -215,13 +264,36 @@ public final class FaultEdgesTest {
         fault(5, 5, HEAD + " WHERE GROUP 0.0");
     }
 
-    private static void groupOrderLimitOrNot() {
+    /** With each of these ahead of it, and behind it: it may be left out. */
+    private static void orNot(String piece, String[] ahead, String[] behind) {
         for (String begun : new String[] {HEAD, HEAD + " WHERE 0.0 IS 1", SIX,
             "SELECT 0.0 FROM T0 T1 T2"}) {
-            good(begun, begun + " GROUP 0.0", begun + " ORDER 0", begun + " LIMIT 5",
-                    begun + " GROUP 0.0 ORDER 0", begun + " GROUP 0.0 LIMIT 5",
-                    begun + " ORDER 0 LIMIT 5", begun + " GROUP 0.0 ORDER 0 LIMIT 5");
+            for (String a : ahead) {
+                for (String b : behind) {
+                    good(begun + a + b, begun + a + piece + b);
+                }
+            }
         }
+    }
+
+    private static void groupOrNot() {
+        String[] behind = {"", " ORDER 0", " LIMIT 5", " ORDER 0 LIMIT 5"};
+        orNot(" GROUP 0.0", new String[] {""}, behind);
+        fault(9, 6, HEAD + " GROUP 0.0 0.1");
+        fault(5, 5, HEAD + " GROUP 0");
+    }
+
+    private static void orderOrNot() {
+        orNot(" ORDER 0", new String[] {"", " GROUP 0.0"}, new String[] {"", " LIMIT 5"});
+        fault(9, 6, HEAD + " ORDER 0 0");
+        fault(8, 5, HEAD + " ORDER 0.0");
+    }
+
+    private static void limitOrNot() {
+        String[] ahead = {"", " GROUP 0.0", " ORDER 0", " GROUP 0.0 ORDER 0"};
+        orNot(" LIMIT 5", ahead, new String[] {""});
+        fault(9, 6, HEAD + " LIMIT 0 0");
+        fault(8, 5, HEAD + " LIMIT 0.0");
     }
 
     private static void inThisOrder() {
@@ -350,6 +422,18 @@ public final class FaultEdgesTest {
         fault(8, 5, "SELECT 0.0 FROM T0 ORDER LIMIT 9 9");
     }
 
+    /** At the end, if anything else is missing than what may be left out. */
+    private static void oneIsMissing() {
+        String text = "SELECT SUM 0.0 FROM T0 WHERE 0.0 IS 1 AND 0.1 LESS 7 GROUP 0.0 ORDER 0 LIMIT 3";
+        int[] faults = {1, 2, 2, 3, 4, 0, 5, 6, 7, 0, 5, 6, 7, 0, 5, 0, 8, 0, 8, 0};
+        int[] tokens = Make.tokens(text);
+        for (int n = 0; n <= tokens.length; n++) {
+            OrchardQuery q = Make.three();
+            CHECKS.is("read() of the first " + n, Make.read(q, Arrays.copyOf(tokens, n)), faults[n]);
+            CHECKS.is("faultAt()", q.faultAt(), faults[n] == 0 ? -1 : n);
+        }
+    }
+
     // ---- all that is near good queries, against the model
 
     private static void near(Model model, OrchardQuery q, int[] tokens) {
@@ -401,44 +485,70 @@ public final class FaultEdgesTest {
     }
 
     public static void main(String[] args) {
-        CHECKS.sentence("1, if SELECT has to be there", FaultEdgesTest::selectHasToBeThere);
-        CHECKS.sentence("2, an ITEM", FaultEdgesTest::anItemHasToBeThere);
-        CHECKS.sentence("also behind SUM: a COLUMN", FaultEdgesTest::behindSumAColumn);
-        CHECKS.sentence("3, another ITEM or FROM", FaultEdgesTest::anotherItemOrFrom);
-        CHECKS.sentence("FROM alone behind four", FaultEdgesTest::fromAloneBehindFour);
-        CHECKS.sentence("4, a TABLE that is there", FaultEdgesTest::aTableHasToBeThere);
-        CHECKS.sentence("a TABLE that is not there, too", FaultEdgesTest::aTableThatIsNotThere);
-        CHECKS.sentence("as long as another one could come", FaultEdgesTest::asLongAsAnotherOneCouldCome);
-        CHECKS.sentence("1 to 3 TABLES", FaultEdgesTest::oneToThreeTables);
-        CHECKS.sentence("5, a COLUMN (in a CONDITION", FaultEdgesTest::aColumnInACondition);
-        CHECKS.sentence("or behind GROUP", FaultEdgesTest::aColumnBehindGroup);
-        CHECKS.sentence("6, IS, IS NOT or LESS", FaultEdgesTest::isIsNotOrLess);
-        CHECKS.sentence("7, a COLUMN or a NUMBER", FaultEdgesTest::aColumnOrANumber);
-        CHECKS.sentence("8, a NUMBER", FaultEdgesTest::aNumber);
-        CHECKS.sentence("9, something else (what may come there, or the end)",
-                FaultEdgesTest::somethingElseBehindTables);
-        CHECKS.sentence("9, something else (what may come there, or the end)",
-                FaultEdgesTest::somethingElseBehindConditions);
-        CHECKS.sentence("1 to 6 of them with AND between two", FaultEdgesTest::oneToSixConditions);
-        CHECKS.sentence("then, or not, GROUP and a COLUMN", FaultEdgesTest::groupOrderLimitOrNot);
-        CHECKS.sentence("then, or not, ORDER and a NUMBER", FaultEdgesTest::inThisOrder);
-        CHECKS.sentence("then, or not, LIMIT and a NUMBER",
-                FaultEdgesTest::somethingElseBehindGroupAndOrder);
-        CHECKS.sentence("and no more", FaultEdgesTest::andNoMore);
-        CHECKS.sentence("the FAULT 10, at the first one whose SEAT is not there",
-                FaultEdgesTest::seatIsNotThere);
-        CHECKS.sentence("or has no such COLUMN", FaultEdgesTest::hasNoSuchColumn);
+        CHECKS.under("Terms");
+        whatItIs();
+        headFaults();
+        tailFaults();
+        columnFaults();
+        CHECKS.end();
+    }
+
+    private static void whatItIs() {
         CHECKS.sentence("A SEAT is a TABLE named behind FROM, numbered from 0 as they come.",
                 FaultEdgesTest::columnsOfTheSeat);
-        CHECKS.sentence("the COLUMNS are looked at, from left to right", FaultEdgesTest::fromLeftToRight);
-        CHECKS.sentence("When all could be read so", FaultEdgesTest::whenAllCouldBeReadSo);
-        CHECKS.sentence("if there is no such ITEM (they are numbered from 0)",
+        CHECKS.sentence("It is: SELECT, 1 to 4 ITEMS, FROM,", FaultEdgesTest::oneToFourItems);
+        CHECKS.sentence("1 to 3 TABLES;", FaultEdgesTest::oneToThreeTables);
+        CHECKS.sentence("then, if there are CONDITIONS, WHERE, and 1 to 6 of them with AND between two;",
+                FaultEdgesTest::oneToSixConditions);
+        CHECKS.sentence("then, or not, GROUP and a COLUMN;", FaultEdgesTest::groupOrNot);
+        CHECKS.sentence("then, or not, ORDER and a NUMBER;", FaultEdgesTest::orderOrNot);
+        CHECKS.sentence("then, or not, LIMIT and a NUMBER;", FaultEdgesTest::limitOrNot);
+        CHECKS.sentence("and no more.", FaultEdgesTest::andNoMore);
+        CHECKS.sentence("and no more.", FaultEdgesTest::inThisOrder);
+        CHECKS.sentence("An ITEM is a COLUMN, or COUNT, or SUM and a COLUMN.",
+                FaultEdgesTest::whatAnItemIs);
+        CHECKS.sentence("A CONDITION is a COLUMN, IS, IS NOT or LESS, and a COLUMN or a NUMBER.",
+                FaultEdgesTest::whatAConditionIs);
+        CHECKS.sentence("It is READ from left to right;", FaultEdgesTest::allThatIsNear);
+        CHECKS.sentence("at the first TOKEN that cannot be there, or at the end, if one is missing,"
+                + " there is a FAULT:", FaultEdgesTest::theFirstThatCannotBeThere);
+        CHECKS.sentence("or at the end, if one is missing,", FaultEdgesTest::oneIsMissing);
+    }
+
+    private static void headFaults() {
+        CHECKS.sentence("1, if SELECT has to be there;", FaultEdgesTest::selectHasToBeThere);
+        CHECKS.sentence("2, an ITEM", FaultEdgesTest::anItemHasToBeThere);
+        CHECKS.sentence("(also behind SUM: a COLUMN);", FaultEdgesTest::behindSumAColumn);
+        CHECKS.sentence("3, another ITEM or FROM", FaultEdgesTest::anotherItemOrFrom);
+        CHECKS.sentence("(FROM alone behind four);", FaultEdgesTest::fromAloneBehindFour);
+        CHECKS.sentence("4, a TABLE that is there", FaultEdgesTest::aTableHasToBeThere);
+        CHECKS.sentence("(a TABLE that is not there, too,", FaultEdgesTest::aTableThatIsNotThere);
+        CHECKS.sentence("as long as another one could come);",
+                FaultEdgesTest::asLongAsAnotherOneCouldCome);
+    }
+
+    private static void tailFaults() {
+        CHECKS.sentence("5, a COLUMN (in a CONDITION,", FaultEdgesTest::aColumnInACondition);
+        CHECKS.sentence("or behind GROUP);", FaultEdgesTest::aColumnBehindGroup);
+        CHECKS.sentence("6, IS, IS NOT or LESS;", FaultEdgesTest::isIsNotOrLess);
+        CHECKS.sentence("7, a COLUMN or a NUMBER;", FaultEdgesTest::aColumnOrANumber);
+        CHECKS.sentence("8, a NUMBER;", FaultEdgesTest::aNumber);
+        CHECKS.sentence("9, something else (what may come there, or the end).",
+                FaultEdgesTest::somethingElseBehindTables);
+        CHECKS.sentence("9, something else (what may come there, or the end).",
+                FaultEdgesTest::somethingElseBehindConditions);
+        CHECKS.sentence("9, something else (what may come there, or the end).",
+                FaultEdgesTest::somethingElseBehindGroupAndOrder);
+    }
+
+    private static void columnFaults() {
+        CHECKS.sentence("When all could be read so,", FaultEdgesTest::whenAllCouldBeReadSo);
+        CHECKS.sentence("the COLUMNS are looked at, from left to right:", FaultEdgesTest::fromLeftToRight);
+        CHECKS.sentence("the FAULT 10, at the first one whose SEAT is not there,",
+                FaultEdgesTest::seatIsNotThere);
+        CHECKS.sentence("or has no such COLUMN;", FaultEdgesTest::hasNoSuchColumn);
+        CHECKS.sentence("then the NUMBER of ORDER:", FaultEdgesTest::columnsAreLookedAtFirst);
+        CHECKS.sentence("the FAULT 11, there, if there is no such ITEM (they are numbered from 0).",
                 FaultEdgesTest::thereIsNoSuchItem);
-        CHECKS.sentence("then the NUMBER of ORDER: the FAULT 11, there",
-                FaultEdgesTest::columnsAreLookedAtFirst);
-        CHECKS.sentence("at the first TOKEN that cannot be there, or at the end, if one is missing",
-                FaultEdgesTest::theFirstThatCannotBeThere);
-        CHECKS.sentence("It is READ from left to right", FaultEdgesTest::allThatIsNear);
-        CHECKS.end();
     }
 }

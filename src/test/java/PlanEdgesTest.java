@@ -104,6 +104,28 @@ public final class PlanEdgesTest {
         CHECKS.is("isEmpty() without rows, behind NEVER", none.isEmpty(), false);
     }
 
+    /** Whatever else is asked for, or is not there: by NEVER alone it becomes EMPTY. */
+    private static void emptyByNeverAlone() {
+        for (String tail : new String[] {"", " LIMIT 0", " GROUP 0.0", " ORDER 0 LIMIT 0"}) {
+            OrchardQuery q = three("SELECT 0.0 FROM T0 WHERE 0.0 IS 1 AND 0.0 IS 2" + tail);
+            CHECKS.is("isEmpty() at first" + tail, q.isEmpty(), false);
+            q.rewrite(TRUE);
+            q.rewrite(DRAWN);
+            q.rewrite(DOWN);
+            q.best();
+            q.results();
+            CHECKS.is("isEmpty() behind all but NEVER" + tail, q.isEmpty(), false);
+            q.rewrite(NEVER);
+            CHECKS.is("isEmpty() behind NEVER" + tail, q.isEmpty(), true);
+            q.rewrite(TRUE);
+            q.rewrite(DRAWN);
+            q.rewrite(DOWN);
+            CHECKS.is("isEmpty() behind other RULES" + tail, q.isEmpty(), true);
+            q.read();
+            CHECKS.is("isEmpty() behind read()" + tail, q.isEmpty(), false);
+        }
+    }
+
     private static void numberedAsTheyCome() {
         String text = "0.0 IS 1, 1.2 ISNOT 999, 0.1 LESS 0, 2.0 IS 1.0, 0.0 ISNOT 2.0, 1.1 LESS 0.1";
         OrchardQuery q = three("SELECT 0.0 FROM T0 T1 T2 WHERE " + text.replace(",", " AND"));
@@ -152,6 +174,19 @@ public final class PlanEdgesTest {
         for (int what = 0; what <= 5; what++) {
             CHECKS.is("condition(0, " + what + ")", q.condition(0, what), due[what]);
         }
+        OrchardQuery other = three("SELECT 0.0 FROM T1 T2 T0 WHERE 1.0 ISNOT 0.2 AND 2.1 LESS 1.0"
+                + " AND 0.0 IS 0");
+        other.rewrite(DOWN);
+        int[][] dues = {{110, 10, 102, 1, 1, 667}, {121, 11, 110, 2, 2, 333}, {100, 9, 1000, 0, 0, 333}};
+        for (int i = 0; i < dues.length; i++) {
+            for (int what = 0; what <= 5; what++) {
+                CHECKS.is("condition(" + i + ", " + what + ")", other.condition(i, what), dues[i][what]);
+            }
+        }
+    }
+
+    private static void whatOfNoCondition() {
+        OrchardQuery q = three("SELECT 0.0 FROM T0 T1 WHERE 0.1 IS 7");
         notTo(q, "condition(0, ..)", 5, what -> q.condition(0, what));
         for (int what : new int[] {LEAST, -1, 6, MOST}) {
             outside(q, "condition(.., " + what + ")", 1, i -> q.condition(i, what));
@@ -169,6 +204,15 @@ public final class PlanEdgesTest {
             int part = parts[variety];
             CHECKS.is("parts with the variety " + variety, each(q, 5),
                     part + " " + (1000 - part) + " " + part + " " + (1000 - part) + " 333 333");
+        }
+    }
+
+    private static void partOfLess() {
+        for (int rows : new int[] {0, 1, 2, 3, 4, 14}) {
+            OrchardQuery q = Make.sized(rows, 14 - rows);
+            Make.read(q, "SELECT 0.0 FROM T0 T1 WHERE 0.0 LESS 0 AND 0.0 LESS 999 AND 0.0 LESS 0.1"
+                    + " AND 0.0 LESS 0.0 AND 1.0 LESS 0.0 AND 1.1 LESS 5");
+            CHECKS.is("parts with " + rows, each(q, 5), "333 333 333 333 333 333");
         }
     }
 
@@ -441,6 +485,23 @@ public final class PlanEdgesTest {
         CHECKS.is("NEVER behind DRAWN", q.rewrite(NEVER), 1);
     }
 
+    /** Each RULE could do something here; it does its own work and leaves the others' undone. */
+    private static void eachRuleAlone() {
+        String text = "0.0 IS 0.0 AND 0.0 IS 0.1 AND 0.0 IS 1 AND 0.0 IS 2 AND 1.0 IS 1.0";
+        int[] times = {2, 2, 4, 1};
+        int[] conditions = {3, 7, 5, 5};
+        String[] levels = {"1 1 1", "1 1 1 1 1 1 1", "0 0 0 0 1", "1 1 1 1 1"};
+        for (int rule = 0; rule <= 3; rule++) {
+            OrchardQuery q = two(text);
+            CHECKS.is("rewrite(" + rule + ")", q.rewrite(rule), times[rule]);
+            CHECKS.is("conditions behind " + rule, q.many(4), conditions[rule]);
+            CHECKS.is("levels behind " + rule, levels(q), levels[rule]);
+            CHECKS.is("isEmpty() behind " + rule, q.isEmpty(), rule == NEVER);
+            CHECKS.is("order behind " + rule, order(q), "0 1");
+            CHECKS.is("rewrite(" + rule + ") again", q.rewrite(rule), 0);
+        }
+    }
+
     private static void noSuchRule() {
         OrchardQuery q = two("0.0 IS 0.0 AND 0.0 IS 0.1 AND 0.0 IS 1 AND 0.0 IS 2");
         notTo(q, "rewrite()", 3, q::rewrite);
@@ -486,6 +547,18 @@ public final class PlanEdgesTest {
         CHECKS.is("the order of two", order(two), "1 0");
         OrchardQuery one = three("SELECT 0.0 FROM T0");
         CHECKS.is("swap(0, 0) of one", one.swap(0, 0), 0);
+    }
+
+    private static void eachSeatAtItsPlace() {
+        OrchardQuery q = three("SELECT 0.0 FROM T0 T1 T2");
+        String[] swaps = {"0 1", "1 2", "0 1", "1 2", "0 1", "1 2"};
+        int[][] dues = {{1, 0, 2}, {1, 2, 0}, {2, 1, 0}, {2, 0, 1}, {0, 2, 1}, {0, 1, 2}};
+        for (int i = 0; i < swaps.length; i++) {
+            Script.run(q, "swap " + swaps[i]);
+            for (int place = 0; place < 3; place++) {
+                CHECKS.is("order(" + place + ")", q.order(place), dues[i][place]);
+            }
+        }
     }
 
     private static void noSuchPlace() {
@@ -655,6 +728,25 @@ public final class PlanEdgesTest {
         CHECKS.is("cost() behind swap()", q.cost(), 2 + 6 + 12);
     }
 
+    private static void theCostOfEachLevel() {
+        OrchardQuery q = three("SELECT 0.0 FROM T1");
+        CHECKS.is("4", q.cost(), 4);
+        Make.read(q, "SELECT 0.0 FROM T1 WHERE 0.0 LESS 1");
+        CHECKS.is("4, whatever holds then", q.cost(), 4);
+        Make.read(q, "SELECT 0.0 FROM T1 T0");
+        CHECKS.is("4 and 4 * 3", q.cost(), 16);
+        Make.read(q, "SELECT 0.0 FROM T1 T0 T2 WHERE 0.1 ISNOT 5");
+        CHECKS.is("4 and 12 and 24", q.cost(), 40);
+        q.rewrite(DOWN);
+        CHECKS.is("4 and 2 * 3 and 6 * 2", q.cost(), 22);
+        q.swap(1, 2);
+        CHECKS.is("4 and 2 * 2 and 4 * 3", q.cost(), 20);
+        q.swap(0, 1);
+        CHECKS.is("2 and 2 * 4 and 4 * 3", q.cost(), 22);
+        q.row(1, 1, 1, 1);
+        CHECKS.is("2 and 2 * 5 and 6 * 3", q.cost(), 30);
+    }
+
     private static void zeroIfItIsEmpty() {
         OrchardQuery q = three("SELECT 0.0 FROM T0 T1 WHERE 0.0 LESS 0.0");
         CHECKS.is("cost() before", q.cost(), 15);
@@ -679,79 +771,141 @@ public final class PlanEdgesTest {
     }
 
     public static void main(String[] args) {
+        CHECKS.under("Terms");
+        plan();
+        rulesTrueAndDrawn();
+        rulesDownAndNever();
+        guesses();
+        conditionRewriteAndSwap();
+        bestOrderGuessAndCost();
+        CHECKS.end();
+    }
+
+    private static void plan() {
+        CHECKS.sentence("3 The PLAN of a QUERY that is READ: its CONDITIONS, numbered from 0 as they come,",
+                PlanEdgesTest::numberedAsTheyCome);
+        CHECKS.sentence("each with a LEVEL,", PlanEdgesTest::levelAtFirst);
+        CHECKS.sentence("and the ORDER of its SEATS; at first 0, 1, 2.", PlanEdgesTest::orderAtFirst);
+        CHECKS.sentence("It is EMPTY, or not (at first).", PlanEdgesTest::notEmptyAtFirst);
         CHECKS.sentence("The LEVEL of each is that of the last SEAT in the ORDER at first.",
                 PlanEdgesTest::levelAtFirst);
-        CHECKS.sentence("the ORDER of its SEATS; at first 0, 1, 2", PlanEdgesTest::orderAtFirst);
-        CHECKS.sentence("It is EMPTY, or not (at first).", PlanEdgesTest::notEmptyAtFirst);
-        CHECKS.sentence("its CONDITIONS, numbered from 0 as they come",
-                PlanEdgesTest::numberedAsTheyCome);
         CHECKS.sentence("The LOW of a CONDITION is the greatest place in the ORDER of a SEAT in it.",
                 PlanEdgesTest::lowIsTheGreatestPlace);
+    }
 
-        CHECKS.sentence("if there is no such CONDITION", PlanEdgesTest::noSuchCondition);
-        CHECKS.sentence("if what is not 0 to 5", PlanEdgesTest::whatOfACondition);
-        CHECKS.sentence("of IS with a NUMBER 1000 / VARIETY of the COLUMN",
-                PlanEdgesTest::partOfIsAndIsNot);
+    private static void rulesTrueAndDrawn() {
+        CHECKS.sentence("RULES: 0 TRUE: the first CONDITION with IS and the same COLUMN twice goes;",
+                PlanEdgesTest::theSameColumnTwiceGoes);
+        CHECKS.sentence("the first CONDITION with IS and the same COLUMN twice goes;",
+                PlanEdgesTest::theSameColumnOfAnotherSeatStays);
+        CHECKS.sentence("those behind it have numbers that are 1 less.",
+                PlanEdgesTest::thoseBehindItAreOneLess);
+
+        CHECKS.sentence("1 DRAWN: for the first two CONDITIONS x IS y", PlanEdgesTest::drawnFromIsAlone);
+        CHECKS.sentence("(COLUMNS, other ones,", PlanEdgesTest::drawnFromOtherColumns);
+        CHECKS.sentence("that is other TOKENS,", PlanEdgesTest::otherTokensOfOneTable);
+        CHECKS.sentence("either way round)", PlanEdgesTest::drawnEitherWayRound);
+        CHECKS.sentence("and x IS n (a NUMBER),", PlanEdgesTest::drawnFromIsAlone);
+        CHECKS.sentence("by the number of the first and then of the second,",
+                PlanEdgesTest::byTheNumberOfTheFirstThenOfTheSecond);
+        CHECKS.sentence("for which there is no CONDITION y IS n:", PlanEdgesTest::thereIsNoSuchCondition);
+        CHECKS.sentence("that is added behind all, with the LEVEL of the last SEAT in the ORDER;",
+                PlanEdgesTest::theLevelOfTheLastSeat);
+        CHECKS.sentence("but not, if there are 12.", PlanEdgesTest::butNotIfThereAreTwelve);
+    }
+
+    private static void rulesDownAndNever() {
+        CHECKS.sentence("2 DOWN: the first CONDITION whose LEVEL is above its LOW has its LOW as LEVEL.",
+                PlanEdgesTest::levelAboveLow);
+        CHECKS.sentence("3 NEVER: if it is not EMPTY,", PlanEdgesTest::ifItIsNotEmpty);
+        CHECKS.sentence("and there are two CONDITIONS x IS n and x IS m,", PlanEdgesTest::ofIsAlone);
+        CHECKS.sentence("x IS m, with other NUMBERS,", PlanEdgesTest::otherNumbers);
+        CHECKS.sentence("or one with IS NOT or LESS, and the same COLUMN twice: it is EMPTY.",
+                PlanEdgesTest::isNotOrLessAndTheSameColumnTwice);
+        CHECKS.sentence("and the same COLUMN twice: it is EMPTY.", PlanEdgesTest::neverOfWhatIsDrawn);
+        CHECKS.sentence("Each is done again as long as it can be.", PlanEdgesTest::noneAndAllOfThemGo);
+        CHECKS.sentence("Each is done again as long as it can be.", PlanEdgesTest::downAlsoOfWhatIsEmpty);
+        CHECKS.sentence("As the ORDER becomes another one, each CONDITION whose LEVEL is below its LOW"
+                + " has its LOW as LEVEL.", PlanEdgesTest::levelsBelowLow);
+    }
+
+    private static void guesses() {
+        CHECKS.sentence("4 GUESSES. PART of a CONDITION, in thousandths: of IS with a NUMBER"
+                + " 1000 / VARIETY of the COLUMN,", PlanEdgesTest::partOfIsAndIsNot);
         CHECKS.sentence("/ is cut towards 0.", PlanEdgesTest::cutTowardsZero);
         CHECKS.sentence("with two COLUMNS 1000 / the greater VARIETY of both",
                 PlanEdgesTest::theGreaterVarietyOfBoth);
-        CHECKS.sentence("1000 in both cases, if the VARIETY is 0", PlanEdgesTest::ifTheVarietyIsZero);
+        CHECKS.sentence("(1000 in both cases, if the VARIETY is 0);", PlanEdgesTest::ifTheVarietyIsZero);
+        CHECKS.sentence("of IS NOT 1000 less that;", PlanEdgesTest::partOfIsAndIsNot);
+        CHECKS.sentence("of LESS 333.", PlanEdgesTest::partOfLess);
+        CHECKS.sentence("The GUESS of the LEVEL k: that of the one below (1 below 0)",
+                PlanEdgesTest::theLeastAndTheGreatestGuess);
+        CHECKS.sentence("times the ROWS of the TABLE of the SEAT at the place k,",
+                PlanEdgesTest::guessesAreAsOfNow);
+        CHECKS.sentence("and then, for each CONDITION of this LEVEL,", PlanEdgesTest::ofThisLevelAlone);
+        CHECKS.sentence("by numbers, times its PART, / 1000.", PlanEdgesTest::cutAtEachByNumbers);
+        CHECKS.sentence("The COST: for each LEVEL the GUESS of the one below, times the ROWS of its TABLE,"
+                + " all together;", PlanEdgesTest::theCostOfEachLevel);
+        CHECKS.sentence("0, if it is EMPTY.", PlanEdgesTest::zeroIfItIsEmpty);
+    }
 
-        CHECKS.sentence("0 TRUE: the first CONDITION with IS and the same COLUMN twice goes",
-                PlanEdgesTest::theSameColumnTwiceGoes);
-        CHECKS.sentence("Each is done again as long as it can be.", PlanEdgesTest::noneAndAllOfThemGo);
-        CHECKS.sentence("the same COLUMN twice", PlanEdgesTest::theSameColumnOfAnotherSeatStays);
-        CHECKS.sentence("those behind it have numbers that are 1 less",
-                PlanEdgesTest::thoseBehindItAreOneLess);
+    private static void conditionRewriteAndSwap() {
+        CHECKS.under("Promise 11: condition");
+        CHECKS.sentence("`condition`: a CONDITION", PlanEdgesTest::numberedAsTheyCome);
+        CHECKS.sentence("`what`: 0 the TOKEN of the COLUMN on its left, 1 9 for IS, 10 for IS NOT,"
+                + " 11 for LESS, 2 the TOKEN on its right, 3 its LEVEL, 4 its LOW, 5 its PART",
+                PlanEdgesTest::whatOfACondition);
+        CHECKS.sentence("Returns that.", PlanEdgesTest::whatOfACondition);
+        CHECKS.sentence("Throws `IndexOutOfBoundsException` if there is no such CONDITION",
+                PlanEdgesTest::noSuchCondition);
+        CHECKS.sentence("Throws `IllegalArgumentException` if what is not 0 to 5",
+                PlanEdgesTest::whatOfNoCondition);
 
-        CHECKS.sentence("either way round", PlanEdgesTest::drawnEitherWayRound);
-        CHECKS.sentence("COLUMNS, other ones, that is other TOKENS",
-                PlanEdgesTest::drawnFromOtherColumns);
-        CHECKS.sentence("other ones, that is other TOKENS", PlanEdgesTest::otherTokensOfOneTable);
-        CHECKS.sentence("1 DRAWN: for the first two CONDITIONS x IS y", PlanEdgesTest::drawnFromIsAlone);
-        CHECKS.sentence("for which there is no CONDITION y IS n", PlanEdgesTest::thereIsNoSuchCondition);
-        CHECKS.sentence("by the number of the first and then of the second",
-                PlanEdgesTest::byTheNumberOfTheFirstThenOfTheSecond);
-        CHECKS.sentence("that is added behind all, with the LEVEL of the last SEAT in the ORDER",
-                PlanEdgesTest::theLevelOfTheLastSeat);
-        CHECKS.sentence("but not, if there are 12", PlanEdgesTest::butNotIfThereAreTwelve);
+        CHECKS.under("Promise 12: rewrite");
+        CHECKS.sentence("Rewrites by a RULE, as long as it can be.", PlanEdgesTest::downAlsoOfWhatIsEmpty);
+        CHECKS.sentence("`rule`: the RULE", PlanEdgesTest::eachRuleAlone);
+        CHECKS.sentence("Returns how many times it was done.", PlanEdgesTest::eachRuleAlone);
+        CHECKS.sentence("Throws `IllegalArgumentException` if rule is not 0 to 3",
+                PlanEdgesTest::noSuchRule);
 
-        CHECKS.sentence("2 DOWN: the first CONDITION whose LEVEL is above its LOW has its LOW as LEVEL.",
-                PlanEdgesTest::levelAboveLow);
-        CHECKS.sentence("Rewrites by a RULE, as long as it can be.",
-                PlanEdgesTest::downAlsoOfWhatIsEmpty);
-        CHECKS.sentence("there are two CONDITIONS x IS n and x IS m, with other NUMBERS",
-                PlanEdgesTest::otherNumbers);
-        CHECKS.sentence("two CONDITIONS x IS n and x IS m", PlanEdgesTest::ofIsAlone);
-        CHECKS.sentence("or one with IS NOT or LESS, and the same COLUMN twice: it is EMPTY",
-                PlanEdgesTest::isNotOrLessAndTheSameColumnTwice);
-        CHECKS.sentence("3 NEVER: if it is not EMPTY", PlanEdgesTest::ifItIsNotEmpty);
-        CHECKS.sentence("it is EMPTY", PlanEdgesTest::neverOfWhatIsDrawn);
-        CHECKS.sentence("if rule is not 0 to 3", PlanEdgesTest::noSuchRule);
-
-        CHECKS.sentence("each CONDITION whose LEVEL is below its LOW has its LOW as LEVEL",
-                PlanEdgesTest::levelsBelowLow);
+        CHECKS.under("Promise 13: swap");
         CHECKS.sentence("Changes the two SEATS at two places of the ORDER one for the other.",
                 PlanEdgesTest::twoPlaces);
-        CHECKS.sentence("if there is no such place", PlanEdgesTest::noSuchPlace);
+        CHECKS.sentence("`one`: a place, from 0", PlanEdgesTest::twoPlaces);
+        CHECKS.sentence("`other`: a place", PlanEdgesTest::twoPlaces);
+        CHECKS.sentence("Returns the SEAT at the place one then.", PlanEdgesTest::twoPlaces);
+        CHECKS.sentence("Throws `IndexOutOfBoundsException` if there is no such place",
+                PlanEdgesTest::noSuchPlace);
+    }
 
-        CHECKS.sentence("as it would be if each CONDITION had its LOW as LEVEL",
-                PlanEdgesTest::asIfEachHadItsLow);
-        CHECKS.sentence("and gives each CONDITION its LOW as LEVEL", PlanEdgesTest::eachGetsItsLow);
-        CHECKS.sentence("that in which the first SEAT has the smallest number, then the second one",
-                PlanEdgesTest::ofSeveralTheSmallestNumbers);
-        CHECKS.sentence("of several (so if it is EMPTY)", PlanEdgesTest::soIfItIsEmpty);
-        CHECKS.sentence("Brings the SEATS into the ORDER with the least COST",
+    private static void bestOrderGuessAndCost() {
+        CHECKS.under("Promise 14: best");
+        CHECKS.sentence("Brings the SEATS into the ORDER with the least COST,",
                 PlanEdgesTest::eachOrderCanBeTheBest);
+        CHECKS.sentence("as it would be if each CONDITION had its LOW as LEVEL;",
+                PlanEdgesTest::asIfEachHadItsLow);
+        CHECKS.sentence("of several (so if it is EMPTY)", PlanEdgesTest::soIfItIsEmpty);
+        CHECKS.sentence("that in which the first SEAT has the smallest number, then the second one;",
+                PlanEdgesTest::ofSeveralTheSmallestNumbers);
+        CHECKS.sentence("and gives each CONDITION its LOW as LEVEL.", PlanEdgesTest::eachGetsItsLow);
+        CHECKS.sentence("Returns the COST.", PlanEdgesTest::asIfEachHadItsLow);
 
-        CHECKS.sentence("that of the one below (1 below 0) times the ROWS",
-                PlanEdgesTest::theLeastAndTheGreatestGuess);
-        CHECKS.sentence("if there is no such LEVEL", PlanEdgesTest::noSuchLevel);
-        CHECKS.sentence("by numbers, times its PART, / 1000", PlanEdgesTest::cutAtEachByNumbers);
-        CHECKS.sentence("for each CONDITION of this LEVEL", PlanEdgesTest::ofThisLevelAlone);
-        CHECKS.sentence("0, if it is EMPTY", PlanEdgesTest::zeroIfItIsEmpty);
-        CHECKS.sentence("times the ROWS of the TABLE of the SEAT at the place k",
-                PlanEdgesTest::guessesAreAsOfNow);
-        CHECKS.end();
+        CHECKS.under("Promise 15: order");
+        CHECKS.sentence("`place`: a place of the ORDER, from 0", PlanEdgesTest::eachSeatAtItsPlace);
+        CHECKS.sentence("Returns the SEAT there.", PlanEdgesTest::eachSeatAtItsPlace);
+        CHECKS.sentence("Throws `IndexOutOfBoundsException` if there is no such place",
+                PlanEdgesTest::noSuchPlace);
+
+        CHECKS.under("Promise 16: guess");
+        CHECKS.sentence("`level`: a LEVEL", PlanEdgesTest::theLeastAndTheGreatestGuess);
+        CHECKS.sentence("Returns its GUESS.", PlanEdgesTest::ofThisLevelAlone);
+        CHECKS.sentence("Throws `IndexOutOfBoundsException` if there is no such LEVEL",
+                PlanEdgesTest::noSuchLevel);
+
+        CHECKS.under("Promise 17: cost");
+        CHECKS.sentence("Returns the COST.", PlanEdgesTest::theCostOfEachLevel);
+
+        CHECKS.under("Promise 18: isEmpty");
+        CHECKS.sentence("Returns whether the PLAN is EMPTY.", PlanEdgesTest::emptyByNeverAlone);
     }
 }

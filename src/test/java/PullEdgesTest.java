@@ -77,6 +77,21 @@ public final class PullEdgesTest {
         pulls(later, "0 0 0, 4 4 1, 7 7 2, end 11 11 2, 11 11 2");
     }
 
+    /** The third SEAT is gone through for what holds up to the second one, alone. */
+    private static void andSoOn() {
+        OrchardQuery q = three("SELECT 0.0 1.0 2.0 FROM T2 T0 T1 WHERE 0.0 ISNOT 5 AND 1.0 LESS 3"
+                + " AND 2.2 IS 7");
+        CHECKS.is("reads and checks at first", q.wouldDo(0) + " " + q.wouldDo(1), "32 44");
+        q.rewrite(2);
+        CHECKS.is("results", Make.results(q), "6 1 1, 6 1 4, 6 2 1, 6 2 4");
+        // 2 of the first, 3 of the second for one of them, 4 of the third for two of these
+        pulls(q, "0 0 0, 4 4 1, 7 7 2, 9 9 3, 12 12 4, end 13 13 4, 13 13 4");
+        q.swap(1, 2);
+        q.rewrite(2);
+        // 4 of the second, then 3 of the third for two of these
+        CHECKS.is("reads and checks the other way", q.wouldDo(0) + " " + q.wouldDo(1), "12 12");
+    }
+
     private static void upToTheFirstThatDoesNotHold() {
         pulls(three("SELECT 0.0 FROM T0 WHERE 0.0 IS 9 AND 0.0 ISNOT 9"), "0 0 0, end 3 3 0, 3 3 0");
         pulls(three("SELECT 0.0 FROM T0 WHERE 0.0 ISNOT 9 AND 0.0 IS 9"), "0 0 0, end 3 6 0, 3 6 0");
@@ -358,6 +373,24 @@ public final class PullEdgesTest {
         CHECKS.is("value() of the last one", grouped.value(0), 20);
     }
 
+    private static void eachResultInItsTurn() {
+        String[] texts = {"SELECT 0.0 FROM T0", "SELECT 0.0 FROM T0 T1 WHERE 0.0 IS 1.0",
+            "SELECT 0.0 FROM T0 ORDER 0 LIMIT 2", "SELECT 0.1 FROM T0 GROUP 0.1", "SELECT COUNT FROM T1",
+            "SELECT 0.0 FROM T0 WHERE 0.0 LESS 0", "SELECT COUNT FROM T0 WHERE 0.0 LESS 0",
+            "SELECT 0.0 FROM T0 LIMIT 0"};
+        int[][] dues = {{1, 2, 3}, {1, 1, 2}, {1, 2}, {10, 20}, {4}, {}, {0}, {}};
+        for (int i = 0; i < texts.length; i++) {
+            OrchardQuery q = three(texts[i]);
+            q.open();
+            for (int due : dues[i]) {
+                CHECKS.is("next() of " + texts[i], q.next(), true);
+                CHECKS.is("value(0) of " + texts[i], q.value(0), due);
+            }
+            CHECKS.is("next() at the end of " + texts[i], q.next(), false);
+            CHECKS.is("done(2) of " + texts[i], q.done(2), dues[i].length);
+        }
+    }
+
     // ---- Promise 21: value
 
     private static void noneWasPulled() {
@@ -424,41 +457,81 @@ public final class PullEdgesTest {
     }
 
     public static void main(String[] args) {
-        CHECKS.sentence("each ROW of a TABLE that is looked at is a READ",
+        CHECKS.under("Terms");
+        goingThrough();
+        beginAndEnd();
+        asFarAsNeeded();
+        openAndNext();
+        valueAndDone();
+        CHECKS.end();
+    }
+
+    private static void goingThrough() {
+        CHECKS.sentence("5 PULLING. To go through a QUERY is to go through the ROWS of the first SEAT"
+                + " in the ORDER, in order;", PullEdgesTest::inTheOrder);
+        CHECKS.sentence("for each one of them for which all CONDITIONS of the LEVEL 0 hold,"
+                + " through those of the second SEAT,", PullEdgesTest::forWhichAllConditionsOfTheLevelHold);
+        CHECKS.sentence("and so on;", PullEdgesTest::andSoOn);
+        CHECKS.sentence("each ROW of a TABLE that is looked at is a READ,",
                 PullEdgesTest::eachRowThatIsLookedAtIsARead);
-        CHECKS.sentence("to go through the ROWS of the first SEAT in the ORDER, in order",
-                PullEdgesTest::inTheOrder);
-        CHECKS.sentence("for each one of them for which all CONDITIONS of the LEVEL 0 hold",
-                PullEdgesTest::forWhichAllConditionsOfTheLevelHold);
-        CHECKS.sentence("by numbers, up to the first one that does not hold",
-                PullEdgesTest::upToTheFirstThatDoesNotHold);
+        CHECKS.sentence("each CONDITION that is asked (by numbers, up to the first one that does not hold)"
+                + " a CHECK.", PullEdgesTest::upToTheFirstThatDoesNotHold);
         CHECKS.sentence("What holds up to the last LEVEL is a MEETING.", PullEdgesTest::whatHolds);
         CHECKS.sentence("With EMPTY there are no READS.", PullEdgesTest::withEmptyThereAreNoReads);
-        CHECKS.sentence("up to the MEETING of the RESULT", PullEdgesTest::upToTheMeetingOfTheResult);
-        CHECKS.sentence("with GROUP, COUNT, SUM or ORDER all at the first PULL",
-                PullEdgesTest::allAtTheFirstPull);
-        CHECKS.sentence("Behind as many RESULTS as LIMIT has nothing is READ any more",
-                PullEdgesTest::behindAsManyAsLimit);
-        CHECKS.sentence("with LIMIT 0 nothing at all", PullEdgesTest::withLimitZeroNothingAtAll);
+    }
 
-        CHECKS.sentence("Returns how many ITEMS a RESULT has.", PullEdgesTest::howManyItems);
-        CHECKS.sentence("anew if it did: no READS, CHECKS, or RESULTS were done",
-                PullEdgesTest::anewIfItDid);
-        CHECKS.sentence("if it is refused, or it was not begun, or is over",
-                PullEdgesTest::itWasNotBegun);
-        CHECKS.sentence("behind token(), clear(), read(), rewrite(), swap(), best(), row() and drop()",
+    private static void beginAndEnd() {
+        CHECKS.sentence("What is PULLED begins with open().", PullEdgesTest::itWasNotBegun);
+        CHECKS.sentence("It is over, and there are no READS, CHECKS and RESULTS of it any more,",
+                PullEdgesTest::whatDoesNotEndIt);
+        CHECKS.sentence("behind token(), clear(), read(), rewrite(), swap(), best(), row() and drop(),",
                 PullEdgesTest::whatEndsIt);
         CHECKS.sentence("of whatever TABLE, also if nothing becomes another one by that",
                 PullEdgesTest::orIsOverBeforeItWasBegun);
-        CHECKS.sentence("(not if they throw)", PullEdgesTest::notIfTheyThrow);
-        CHECKS.sentence("It is over", PullEdgesTest::whatDoesNotEndIt);
-        CHECKS.sentence("It is not over as there is no RESULT any more: next() tells so again then",
-                PullEdgesTest::notOverAsThereIsNoResult);
-        CHECKS.sentence("none was PULLED since open()", PullEdgesTest::noneWasPulled);
+        CHECKS.sentence("(not if they throw).", PullEdgesTest::notIfTheyThrow);
+        CHECKS.sentence("It is not over as there is no RESULT any more: next() tells so again then,"
+                + " and value() that of the last one.", PullEdgesTest::notOverAsThereIsNoResult);
+    }
+
+    private static void asFarAsNeeded() {
+        CHECKS.sentence("As one PULLS, READS and CHECKS are done only as far as they are needed:"
+                + " up to the MEETING of the RESULT;", PullEdgesTest::upToTheMeetingOfTheResult);
+        CHECKS.sentence("with GROUP, COUNT, SUM or ORDER all at the first PULL.",
+                PullEdgesTest::allAtTheFirstPull);
+        CHECKS.sentence("Behind as many RESULTS as LIMIT has nothing is READ any more;",
+                PullEdgesTest::behindAsManyAsLimit);
+        CHECKS.sentence("with LIMIT 0 nothing at all.", PullEdgesTest::withLimitZeroNothingAtAll);
+    }
+
+    private static void openAndNext() {
+        CHECKS.under("Promise 19: open");
+        CHECKS.sentence("Begins to PULL, anew if it did: no READS, CHECKS, or RESULTS were done.",
+                PullEdgesTest::anewIfItDid);
+        CHECKS.sentence("Returns how many ITEMS a RESULT has.", PullEdgesTest::howManyItems);
+
+        CHECKS.under("Promise 20: next");
+        CHECKS.sentence("PULLS the next RESULT.", PullEdgesTest::eachResultInItsTurn);
+        CHECKS.sentence("Returns whether there was one.", PullEdgesTest::eachResultInItsTurn);
+        CHECKS.sentence("or it was not begun,", PullEdgesTest::itWasNotBegun);
+        CHECKS.sentence("or is over", PullEdgesTest::whatEndsIt);
+    }
+
+    private static void valueAndDone() {
+        CHECKS.under("Promise 21: value");
+        CHECKS.sentence("`item`: an ITEM", PullEdgesTest::valueOfTheLastPulled);
         CHECKS.sentence("Returns its VALUE in the RESULT that was PULLED last.",
                 PullEdgesTest::valueOfTheLastPulled);
-        CHECKS.sentence("if what is not 0 to 2", PullEdgesTest::whatOfDone);
-        CHECKS.sentence("0, if it was not begun, or is over", PullEdgesTest::zeroIfNotBegun);
-        CHECKS.end();
+        CHECKS.sentence("none was PULLED since open(),", PullEdgesTest::noneWasPulled);
+        CHECKS.sentence("or it is over", PullEdgesTest::whatEndsIt);
+        CHECKS.sentence("Throws `IndexOutOfBoundsException` if there is no such ITEM",
+                PullEdgesTest::howManyItems);
+
+        CHECKS.under("Promise 22: done");
+        CHECKS.sentence("`what`: 0 READS since open(), 1 CHECKS, 2 RESULTS that were PULLED",
+                PullEdgesTest::upToTheMeetingOfTheResult);
+        CHECKS.sentence("Returns how many there were (0, if it was not begun, or is over).",
+                PullEdgesTest::zeroIfNotBegun);
+        CHECKS.sentence("Throws `IllegalArgumentException` if what is not 0 to 2",
+                PullEdgesTest::whatOfDone);
     }
 }

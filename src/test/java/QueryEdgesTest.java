@@ -62,6 +62,97 @@ public final class QueryEdgesTest {
         }
     }
 
+    /** TABLES 0 to 4 with one ROW each: 10 * t, 10 * t + 1 and 10 * t + 2. */
+    private static OrchardQuery five() {
+        OrchardQuery q = Make.tables(3, 3, 3, 3, 3);
+        for (int t = 0; t < 5; t++) {
+            q.row(t, 10 * t, 10 * t + 1, 10 * t + 2);
+        }
+        return q;
+    }
+
+    /** Every word has its place here, by its number: if two were changed round, there would be a fault. */
+    private static void whatEachWordIs() {
+        OrchardQuery q = Make.three();
+        CHECKS.is("read()", Make.read(q, 0, 101, 7, 8, 100, 1, 20, 2, 100, 9, 1003, 4, 101, 5, 1001,
+                6, 1001), 0);
+        CHECKS.is("IS", Make.results(q), "10 1 3");
+        CHECKS.is("read()", Make.read(q, 0, 101, 7, 8, 100, 1, 20, 2, 100, 10, 1003, 3, 100, 11, 1003,
+                4, 101), 0);
+        CHECKS.is("IS NOT and LESS, GROUP", Make.results(q), "10 1 1, 20 1 2");
+        CHECKS.is("read()", Make.read(q, 0, 100, 1, 20, 2, 100, 10, 1002), 0);
+        CHECKS.is("IS NOT", Make.results(q), "1, 3");
+        CHECKS.is("read()", Make.read(q, 0, 100, 1, 20, 2, 100, 11, 1002), 0);
+        CHECKS.is("LESS", Make.results(q), "1");
+        CHECKS.is("read()", Make.read(q, 0, 101, 100, 1, 20, 5, 1000), 0);
+        CHECKS.is("ORDER", Make.results(q), "10 1, 10 3, 20 2");
+        CHECKS.is("read()", Make.read(q, 0, 101, 1, 20, 6, 1002), 0);
+        CHECKS.is("LIMIT", Make.results(q), "10, 20");
+        CHECKS.is("read()", Make.read(q, 0, 7, 1, 20), 0);
+        CHECKS.is("COUNT", Make.results(q), "3");
+        CHECKS.is("read()", Make.read(q, 0, 8, 101, 1, 20), 0);
+        CHECKS.is("SUM", Make.results(q), "40");
+    }
+
+    private static void whichTable() {
+        OrchardQuery q = five();
+        for (int t = 0; t < 5; t++) {
+            CHECKS.is("read()", Make.read(q, 0, 100, 101, 102, 1, 20 + t), 0);
+            int ten = 10 * t;
+            CHECKS.is("of " + (20 + t), Make.results(q), ten + " " + (ten + 1) + " " + (ten + 2));
+        }
+        CHECKS.is("read()", Make.read(q, 0, 100, 110, 120, 1, 24, 20, 23), 0);
+        CHECKS.is("of three of them", Make.results(q), "40 0 30");
+    }
+
+    private static void whichColumn() {
+        OrchardQuery q = five();
+        for (int seat = 0; seat < 3; seat++) {
+            for (int column = 0; column < 3; column++) {
+                int token = 100 + 10 * seat + column;
+                CHECKS.is("read()", Make.read(q, 0, token, 1, 21, 22, 23), 0);
+                CHECKS.is("of " + token, q.result(0, 0), 10 * (seat + 1) + column);
+            }
+        }
+        for (int seat = 0; seat < 10; seat++) {
+            OrchardQuery all = five();
+            for (int column = 0; column < 10; column++) {
+                int token = 100 + 10 * seat + column;
+                boolean there = seat < 3 && column < 3;
+                CHECKS.is("read() of " + token, Make.read(all, 0, token, 1, 20, 21, 22), there ? 0 : 10);
+            }
+        }
+    }
+
+    private static void whichNumber() {
+        int[] numbers = {0, 1, 9, 10, 499, 500, 998, 999};
+        OrchardQuery q = Make.tables(1);
+        for (int v : numbers) {
+            q.row(0, v, 0, 0);
+        }
+        q.row(0, -1, 0, 0);
+        for (int i = 0; i < numbers.length; i++) {
+            int token = 1000 + numbers[i];
+            CHECKS.is("read()", Make.read(q, 0, 100, 1, 20, 2, 100, 9, token), 0);
+            CHECKS.is("IS " + token, Make.results(q), "" + numbers[i]);
+            CHECKS.is("read()", Make.read(q, 0, 7, 1, 20, 2, 100, 11, token), 0);
+            CHECKS.is("LESS " + token, Make.results(q), "" + (i + 1));
+            CHECKS.is("read()", Make.read(q, 0, 100, 1, 20, 6, token), 0);
+            CHECKS.is("LIMIT " + token, q.results(), Math.min(9, numbers[i]));
+        }
+    }
+
+    private static void addedBehindTheOthers() {
+        OrchardQuery q = Make.three();
+        int[] tokens = Make.tokens("SELECT 0.1 FROM T0 WHERE 0.0 LESS 3 LIMIT 1");
+        int[] faults = {2, 3, 4, 0, 5, 6, 7, 0, 8, 0};
+        for (int i = 0; i < tokens.length; i++) {
+            CHECKS.is("token()", q.token(tokens[i]), i + 1);
+            CHECKS.is("read() of " + (i + 1), q.read(), faults[i]);
+        }
+        CHECKS.is("all of it", Make.results(q), "10");
+    }
+
     private static void fortyTokens() {
         OrchardQuery q = new OrchardQuery();
         for (int n = 1; n <= 40; n++) {
@@ -202,6 +293,44 @@ public final class QueryEdgesTest {
         CHECKS.is("as at first", q.digest(), first);
         CHECKS.is("read() behind read()", q.read(), 0);
         CHECKS.is("as at first", q.digest(), first);
+    }
+
+    /** What was asked before is not what is answered behind read(). */
+    private static void whatIsAskedIsOfThatPlan() {
+        OrchardQuery q = Make.three();
+        Make.read(q, "SELECT 0.0 1.0 FROM T0 T1 WHERE 0.0 IS 2 AND 1.2 ISNOT 9");
+        CHECKS.is("reads at first", q.wouldDo(0), 15);
+        q.rewrite(2);
+        CHECKS.is("reads behind DOWN", q.wouldDo(0), 7);
+        q.read();
+        CHECKS.is("reads as at first", q.wouldDo(0), 15);
+        CHECKS.is("checks as at first", q.wouldDo(1), 12 + 4);
+        CHECKS.is("results as at first", Make.results(q), "2 1, 2 1, 2 4");
+        Make.read(q, "SELECT 0.0 1.0 FROM T0 T1 WHERE 1.0 LESS 2");
+        q.swap(0, 1);
+        CHECKS.is("the other way round", Make.results(q), "1 1, 2 1, 3 1, 1 1, 2 1, 3 1");
+        q.read();
+        CHECKS.is("results as at first", Make.results(q), "1 1, 1 1, 2 1, 2 1, 3 1, 3 1");
+        Make.read(q, "SELECT COUNT FROM T0 WHERE 0.0 LESS 0.0");
+        q.rewrite(3);
+        CHECKS.is("reads of EMPTY", q.wouldDo(0), 0);
+        q.read();
+        CHECKS.is("reads as at first", q.wouldDo(0), 3);
+    }
+
+    private static void eachFault() {
+        String[] faulty = {"FROM", "SELECT FROM", "SELECT 0.0 T0", "SELECT 0.0 FROM T3",
+            "SELECT 0.0 FROM T0 WHERE 7", "SELECT 0.0 FROM T0 WHERE 0.0 AND",
+            "SELECT 0.0 FROM T0 WHERE 0.0 IS T0", "SELECT 0.0 FROM T0 LIMIT 0.0",
+            "SELECT 0.0 FROM T0 0.0", "SELECT 0.0 FROM T0 GROUP 1.0", "SELECT 0.0 FROM T0 ORDER 7"};
+        int[] places = {0, 1, 2, 3, 5, 6, 7, 5, 4, 5, 5};
+        OrchardQuery q = Make.three();
+        for (int i = 0; i < faulty.length; i++) {
+            CHECKS.is("read() of " + faulty[i], Make.read(q, faulty[i]), i + 1);
+            CHECKS.is("faultAt()", q.faultAt(), places[i]);
+        }
+        CHECKS.is("read() without one", Make.read(q, "SELECT 0.0 FROM T0"), 0);
+        CHECKS.is("faultAt()", q.faultAt(), -1);
     }
 
     private static void nothingIsLeftOfTheOneBefore() {
@@ -400,41 +529,74 @@ public final class QueryEdgesTest {
     }
 
     public static void main(String[] args) {
-        CHECKS.sentence("0 SELECT, 1 FROM, 2 WHERE", QueryEdgesTest::everyToken);
-        CHECKS.sentence("if it is none", QueryEdgesTest::tokensBelowAndAbove);
-        CHECKS.sentence("20 to 24 the TABLES 0 to 4", QueryEdgesTest::aTableThatIsNotThereIsAToken);
-        CHECKS.sentence("2 A QUERY is a row of at most 40 TOKENS", QueryEdgesTest::fortyTokens);
-        CHECKS.sentence("if there are 40", QueryEdgesTest::a41stToken);
-        CHECKS.sentence("the one that is named first is thrown", QueryEdgesTest::a41stThatIsNone);
+        terms();
+        tokenAndClear();
+        readAndFaultAt();
+        many();
+        CHECKS.end();
+    }
+
+    private static void terms() {
+        CHECKS.under("Terms");
+        CHECKS.sentence("2 A QUERY is a row of at most 40 TOKENS:", QueryEdgesTest::fortyTokens);
+        CHECKS.sentence("0 SELECT, 1 FROM, 2 WHERE, 3 AND, 4 GROUP, 5 ORDER, 6 LIMIT, 7 COUNT, 8 SUM,"
+                + " 9 IS, 10 IS NOT, 11 LESS;", QueryEdgesTest::whatEachWordIs);
+        CHECKS.sentence("20 to 24 the TABLES 0 to 4;", QueryEdgesTest::whichTable);
+        CHECKS.sentence("20 to 24 the TABLES", QueryEdgesTest::aTableThatIsNotThereIsAToken);
+        CHECKS.sentence("100 + 10 * s + c the COLUMN c (0 to 9) of the SEAT s (0 to 9);",
+                QueryEdgesTest::whichColumn);
+        CHECKS.sentence("1000 + v the NUMBER v (0 to 999).", QueryEdgesTest::whichNumber);
+        CHECKS.sentence("the one that is named first is thrown.", QueryEdgesTest::a41stThatIsNone);
         CHECKS.sentence("A method that throws an exception changes nothing.",
                 QueryEdgesTest::refusedTokenLeavesItRead);
-        CHECKS.sentence("as a TOKEN is added, or all are taken away, it is not READ any more",
-                QueryEdgesTest::notReadBehindToken);
+        CHECKS.sentence("as a TOKEN is added,", QueryEdgesTest::notReadBehindToken);
+        CHECKS.sentence("or all are taken away,", QueryEdgesTest::notReadBehindClear);
+        CHECKS.sentence("it is not READ any more.", QueryEdgesTest::itStaysRead);
+    }
 
-        CHECKS.sentence("Returns how many there were.", QueryEdgesTest::clearOfNothing);
+    private static void tokenAndClear() {
+        CHECKS.under("Promise 6: token");
+        CHECKS.sentence("Adds a TOKEN.", QueryEdgesTest::addedBehindTheOthers);
+        CHECKS.sentence("`token`: the TOKEN", QueryEdgesTest::everyToken);
+        CHECKS.sentence("Returns how many there are then.", QueryEdgesTest::fortyTokens);
+        CHECKS.sentence("Throws `IllegalArgumentException` if it is none",
+                QueryEdgesTest::tokensBelowAndAbove);
+        CHECKS.sentence("Throws `IllegalStateException` if there are 40", QueryEdgesTest::a41stToken);
+
+        CHECKS.under("Promise 7: clear");
         CHECKS.sentence("Takes all TOKENS away.", QueryEdgesTest::clearOfForty);
-        CHECKS.sentence("as a TOKEN is added, or all are taken away, it is not READ any more",
-                QueryEdgesTest::notReadBehindClear);
+        CHECKS.sentence("Returns how many there were.", QueryEdgesTest::clearOfNothing);
+    }
 
-        CHECKS.sentence("with a FAULT it is not READ", QueryEdgesTest::withAFaultItIsNotRead);
+    private static void readAndFaultAt() {
+        CHECKS.under("Promise 8: read");
+        CHECKS.sentence("READS the QUERY;", QueryEdgesTest::nothingIsLeftOfTheOneBefore);
+        CHECKS.sentence("READS the QUERY;", QueryEdgesTest::noConditionIsLeftOfTheOneBefore);
+        CHECKS.sentence("READS the QUERY;", QueryEdgesTest::nothingThatIsLeftIsThere);
+        CHECKS.sentence("with a FAULT it is not READ.", QueryEdgesTest::withAFaultItIsNotRead);
         CHECKS.sentence("Its PLAN is as at first.", QueryEdgesTest::itsPlanIsAsAtFirst);
-        CHECKS.sentence("READS the QUERY", QueryEdgesTest::nothingIsLeftOfTheOneBefore);
-        CHECKS.sentence("READS the QUERY", QueryEdgesTest::noConditionIsLeftOfTheOneBefore);
-        CHECKS.sentence("READS the QUERY", QueryEdgesTest::nothingThatIsLeftIsThere);
+        CHECKS.sentence("Its PLAN is as at first.", QueryEdgesTest::whatIsAskedIsOfThatPlan);
+        CHECKS.sentence("Returns the FAULT;", QueryEdgesTest::eachFault);
+        CHECKS.sentence("0 without one.", QueryEdgesTest::itStaysRead);
 
-        CHECKS.sentence("-1 if there was none", QueryEdgesTest::minusOneWithoutAFault);
-        CHECKS.sentence("read() was not called since token() or clear()",
+        CHECKS.under("Promise 9: faultAt");
+        CHECKS.sentence("Returns the place of the FAULT with which it was READ last, from 0",
+                QueryEdgesTest::eachFault);
+        CHECKS.sentence("with which it was READ last", QueryEdgesTest::thePlaceStays);
+        CHECKS.sentence("READ last", QueryEdgesTest::thePlaceOfTheLastRead);
+        CHECKS.sentence("(as many as there are TOKENS at the end);", QueryEdgesTest::thePlaceOfTheEnd);
+        CHECKS.sentence("-1 if there was none,", QueryEdgesTest::minusOneWithoutAFault);
+        CHECKS.sentence("or read() was not called since token() or clear().",
                 QueryEdgesTest::minusOneBehindTokenAndClear);
-        CHECKS.sentence("as many as there are TOKENS at the end", QueryEdgesTest::thePlaceOfTheEnd);
-        CHECKS.sentence("the place of the FAULT with which it was READ last",
-                QueryEdgesTest::thePlaceStays);
-        CHECKS.sentence("the place of the FAULT with which it was READ last",
-                QueryEdgesTest::thePlaceOfTheLastRead);
+    }
 
-        CHECKS.sentence("if what is not 0 to 4", QueryEdgesTest::whatIsZeroToFour);
-        CHECKS.sentence("2 to 4: 0, if it is not READ", QueryEdgesTest::zeroIfItIsNotRead);
+    private static void many() {
+        CHECKS.under("Promise 10: many");
+        CHECKS.sentence("`what`: 0 TABLES, 1 TOKENS, 2 ITEMS, 3 SEATS, 4 CONDITIONS of the PLAN",
+                QueryEdgesTest::asManyAsCanBe);
+        CHECKS.sentence("(2 to 4: 0, if it is not READ)", QueryEdgesTest::zeroIfItIsNotRead);
         CHECKS.sentence("Returns how many there are.", QueryEdgesTest::asManyAsCanBe);
-        CHECKS.sentence("all that follows", QueryEdgesTest::itStaysRead);
-        CHECKS.end();
+        CHECKS.sentence("Throws `IllegalArgumentException` if what is not 0 to 4",
+                QueryEdgesTest::whatIsZeroToFour);
     }
 }

@@ -114,12 +114,21 @@ public final class RefusedEdgesTest {
     }
 
     public static void main(String[] args) {
-        CHECKS.sentence("is refused (IllegalStateException, ahead of all else), if the QUERY is not READ",
+        CHECKS.under("Terms");
+        CHECKS.sentence("all that follows, what would be, too,", RefusedEdgesTest::isRefused);
+        CHECKS.sentence("but not digest(),", RefusedEdgesTest::whatIsNotRefused);
+        CHECKS.sentence("is refused (IllegalStateException, ahead of all else), if the QUERY is not READ.",
                 RefusedEdgesTest::isRefused);
-        CHECKS.sentence("but not digest()", RefusedEdgesTest::whatIsNotRefused);
-        CHECKS.sentence("READS the QUERY", RefusedEdgesTest::itIsReadAgain);
         CHECKS.sentence("If several exceptions apply, the one that is named first is thrown.",
                 RefusedEdgesTest::theOneThatIsNamedFirst);
+        CHECKS.under("Promise 8: read");
+        CHECKS.sentence("READS the QUERY;", RefusedEdgesTest::itIsReadAgain);
+        CHECKS.under("Promise 11: condition", "Promise 12: rewrite", "Promise 13: swap",
+                "Promise 14: best", "Promise 15: order", "Promise 16: guess", "Promise 17: cost",
+                "Promise 18: isEmpty", "Promise 19: open", "Promise 20: next", "Promise 21: value",
+                "Promise 22: done", "Promise 23: results", "Promise 24: result", "Promise 25: wouldDo",
+                "Promise 26: meetingsWithout", "Promise 27: share");
+        CHECKS.sentence("Throws `IllegalStateException` if it is refused", RefusedEdgesTest::isRefused);
         CHECKS.end();
     }
 }

@@ -66,6 +66,17 @@ public final class TableEdgesTest {
         }
     }
 
+    private static void columnsAreNumberedFromZero() {
+        OrchardQuery q = Make.tables(3);
+        q.row(0, 7, 8, 9);
+        q.row(0, 7, 8, 6);
+        q.row(0, 7, 5, 4);
+        for (int column = 0; column < 3; column++) {
+            CHECKS.is("variety(0, " + column + ")", q.variety(0, column), column + 1);
+        }
+        CHECKS.is("the columns", values(q, 0, 3), "7 8 9, 7 8 6, 7 5 4");
+    }
+
     private static void columnsBelowAndAbove() {
         OrchardQuery q = new OrchardQuery();
         for (int columns : new int[] {LEAST, -3, -1, 0, 4, 5, MOST}) {
@@ -107,6 +118,32 @@ public final class TableEdgesTest {
     }
 
     // ---- Promise 3
+
+    private static void rowGoesToItsTable() {
+        OrchardQuery q = Make.tables(1, 1, 1, 1, 1);
+        for (int t = 4; t >= 0; t--) {
+            CHECKS.is("the first row of " + t, q.row(t, 10 * t, 0, 0), 1);
+        }
+        for (int t = 0; t < 5; t++) {
+            CHECKS.is("the second row of " + t, q.row(t, 10 * t + 1, 0, 0), 2);
+        }
+        CHECKS.is("the third row of 2", q.row(2, 22, 0, 0), 3);
+        for (int t = 0; t < 5; t++) {
+            String due = 10 * t + ", " + (10 * t + 1) + (t == 2 ? ", 22" : "");
+            CHECKS.is("rows of " + t, values(q, t, 1), due);
+        }
+    }
+
+    private static void firstSecondAndThird() {
+        OrchardQuery q = Make.tables(1, 2, 3);
+        for (int t = 0; t < 3; t++) {
+            q.row(t, 1, 2, 3);
+            q.row(t, -30, 20, -10);
+        }
+        CHECKS.is("of one column", values(q, 0, 1), "1, -30");
+        CHECKS.is("of two columns", values(q, 1, 2), "1 2, -30 20");
+        CHECKS.is("of three columns", values(q, 2, 3), "1 2 3, -30 20 -10");
+    }
 
     private static void rowOfNoTable() {
         OrchardQuery q = Make.tables(1, 3);
@@ -222,6 +259,29 @@ public final class TableEdgesTest {
 
     // ---- Promise 4
 
+    private static void dropOfThatTable() {
+        OrchardQuery q = Make.sized(3, 3, 3);
+        CHECKS.is("a row of 1", q.drop(1, 0), 2);
+        CHECKS.is("a row of 2", q.drop(2, 1), 2);
+        CHECKS.is("another row of 2", q.drop(2, 1), 1);
+        CHECKS.is("rows of 0", values(q, 0, 1), "0, 1, 2");
+        CHECKS.is("rows of 1", values(q, 1, 1), "1, 2");
+        CHECKS.is("rows of 2", values(q, 2, 1), "0");
+    }
+
+    private static void eachPlaceIsDropped() {
+        for (int place = 0; place < 14; place++) {
+            OrchardQuery q = Make.sized(14);
+            CHECKS.is("drop(0, " + place + ")", q.drop(0, place), 13);
+            Make.read(q, "SELECT 0.0 0.2 FROM T0");
+            for (int i = 0; i < 13; i++) {
+                int due = i < place ? i : i + 1;
+                CHECKS.is("the row " + i, q.result(i, 0), due);
+                CHECKS.is("its last value", q.result(i, 1), -due);
+            }
+        }
+    }
+
     private static void dropOfNoTable() {
         OrchardQuery q = Make.sized(2, 1);
         for (int table : new int[] {LEAST, -1, 2, 5, MOST}) {
@@ -307,6 +367,21 @@ public final class TableEdgesTest {
         CHECKS.is("the other one went", q.variety(0, 0), 1);
     }
 
+    private static void varietyOfThatColumn() {
+        OrchardQuery q = Make.tables(1, 2, 3);
+        for (int i = 0; i < 6; i++) {
+            q.row(0, i, 0, 0);
+            q.row(1, i / 2, i / 3, 0);
+            q.row(2, 0, Math.min(i, 3), Math.min(i, 4));
+        }
+        int[][] dues = {{6}, {3, 2}, {1, 4, 5}};
+        for (int t = 0; t < 3; t++) {
+            for (int c = 0; c <= t; c++) {
+                CHECKS.is("variety(" + t + ", " + c + ")", q.variety(t, c), dues[t][c]);
+            }
+        }
+    }
+
     private static void varietyOfNoTable() {
         OrchardQuery q = Make.sized(2, 2);
         for (int table : new int[] {LEAST, -1, 2, 5, MOST}) {
@@ -329,42 +404,77 @@ public final class TableEdgesTest {
     }
 
     public static void main(String[] args) {
-        CHECKS.sentence("Creates an engine without TABLES", TableEdgesTest::newObjectIsWithoutTables);
-        CHECKS.sentence("with an empty QUERY", TableEdgesTest::newObjectHasAnEmptyQuery);
+        terms();
+        newObjectAndTable();
+        rowDropAndVariety();
+        CHECKS.end();
+    }
+
+    private static void terms() {
+        CHECKS.under("Terms");
+        CHECKS.sentence("1 TABLES: at most 5, numbered from 0,", TableEdgesTest::fiveTables);
+        CHECKS.sentence("each with 1 to 3 COLUMNS,", TableEdgesTest::columnsAreOneToThree);
+        CHECKS.sentence("COLUMNS, numbered from 0,", TableEdgesTest::columnsAreNumberedFromZero);
+        CHECKS.sentence("and at most 14 ROWS", TableEdgesTest::fourteenRows);
+        CHECKS.sentence("ROWS of VALUES, -999 to 999;", TableEdgesTest::theLeastAndTheGreatestValue);
+        CHECKS.sentence("ROWS can be alike.", TableEdgesTest::rowsAlike);
+        CHECKS.sentence("The VARIETY of a COLUMN is how many VALUES, each counted once, are in it.",
+                TableEdgesTest::eachValueIsCountedOnce);
+        CHECKS.sentence("how many VALUES, each counted once, are in it.",
+                TableEdgesTest::varietyBehindDrop);
+        CHECKS.sentence("the one that is named first is thrown.", TableEdgesTest::sixthTableOfBadColumns);
+        CHECKS.sentence("the one that is named first is thrown.", TableEdgesTest::rowOfNoTableAndNoValue);
+        CHECKS.sentence("the one that is named first is thrown.", TableEdgesTest::aFifteenthRowOfNoValue);
+    }
+
+    private static void newObjectAndTable() {
+        CHECKS.under("Promise 1: A new object");
+        CHECKS.sentence("Creates an engine without TABLES,", TableEdgesTest::newObjectIsWithoutTables);
+        CHECKS.sentence("with an empty QUERY.", TableEdgesTest::newObjectHasAnEmptyQuery);
         CHECKS.sentence("Creates an engine without TABLES, with an empty QUERY.",
                 TableEdgesTest::newObjectIsNotRead);
         CHECKS.sentence("Creates an engine", TableEdgesTest::newObjectsAreApart);
 
-        CHECKS.sentence("each with 1 to 3 COLUMNS", TableEdgesTest::columnsAreOneToThree);
-        CHECKS.sentence("if columns is not 1 to 3", TableEdgesTest::columnsBelowAndAbove);
-        CHECKS.sentence("1 TABLES: at most 5, numbered from 0", TableEdgesTest::fiveTables);
-        CHECKS.sentence("if there are 5", TableEdgesTest::aSixthTable);
-        CHECKS.sentence("the one that is named first is thrown", TableEdgesTest::sixthTableOfBadColumns);
+        CHECKS.under("Promise 2: table");
+        CHECKS.sentence("Adds a TABLE.", TableEdgesTest::fiveTables);
+        CHECKS.sentence("`columns`: how many COLUMNS it has", TableEdgesTest::columnsAreOneToThree);
+        CHECKS.sentence("Returns its number.", TableEdgesTest::fiveTables);
+        CHECKS.sentence("Throws `IllegalArgumentException` if columns is not 1 to 3",
+                TableEdgesTest::columnsBelowAndAbove);
+        CHECKS.sentence("Throws `IllegalStateException` if there are 5", TableEdgesTest::aSixthTable);
+    }
 
-        CHECKS.sentence("if there is no such TABLE", TableEdgesTest::rowOfNoTable);
-        CHECKS.sentence("the one that is named first is thrown", TableEdgesTest::rowOfNoTableAndNoValue);
-        CHECKS.sentence("VALUES, -999 to 999", TableEdgesTest::theLeastAndTheGreatestValue);
-        CHECKS.sentence("if one that is looked at is not -999 to 999",
-                TableEdgesTest::valuesBelowAndAbove);
-        CHECKS.sentence("not looked at, if there is no such COLUMN; so the third one",
+    private static void rowDropAndVariety() {
+        CHECKS.under("Promise 3: row");
+        CHECKS.sentence("Adds a ROW.", TableEdgesTest::rowGoesToItsTable);
+        CHECKS.sentence("`table`: its TABLE", TableEdgesTest::rowGoesToItsTable);
+        CHECKS.sentence("`a`: the first VALUE", TableEdgesTest::firstSecondAndThird);
+        CHECKS.sentence("`b`: the second one", TableEdgesTest::firstSecondAndThird);
+        CHECKS.sentence("(not looked at, if there is no such COLUMN; so the third one)",
                 TableEdgesTest::notLookedAt);
-        CHECKS.sentence("at most 14 ROWS", TableEdgesTest::fourteenRows);
-        CHECKS.sentence("if there are 14", TableEdgesTest::aFifteenthRow);
-        CHECKS.sentence("the one that is named first is thrown", TableEdgesTest::aFifteenthRowOfNoValue);
-        CHECKS.sentence("ROWS can be alike", TableEdgesTest::rowsAlike);
+        CHECKS.sentence("`c`: the third one", TableEdgesTest::firstSecondAndThird);
+        CHECKS.sentence("Returns how many there are then.", TableEdgesTest::fourteenRows);
+        CHECKS.sentence("Throws `IndexOutOfBoundsException` if there is no such TABLE",
+                TableEdgesTest::rowOfNoTable);
+        CHECKS.sentence("Throws `IllegalArgumentException` if one that is looked at is not -999 to 999",
+                TableEdgesTest::valuesBelowAndAbove);
+        CHECKS.sentence("Throws `IllegalStateException` if there are 14", TableEdgesTest::aFifteenthRow);
 
-        CHECKS.sentence("if there is no such TABLE, or ROW", TableEdgesTest::dropOfNoTable);
-        CHECKS.sentence("if there is no such TABLE, or ROW", TableEdgesTest::dropOfNoRow);
-        CHECKS.sentence("the place of the ROW, from 0", TableEdgesTest::dropOfTheFirstAndTheLast);
+        CHECKS.under("Promise 4: drop");
+        CHECKS.sentence("Takes a ROW away.", TableEdgesTest::dropOfTheFirstAndTheLast);
+        CHECKS.sentence("`table`: the TABLE", TableEdgesTest::dropOfThatTable);
+        CHECKS.sentence("`place`: the place of the ROW, from 0", TableEdgesTest::eachPlaceIsDropped);
         CHECKS.sentence("Returns how many there are then.", TableEdgesTest::dropOfTheOnlyOne);
+        CHECKS.sentence("Throws `IndexOutOfBoundsException` if there is no such TABLE,",
+                TableEdgesTest::dropOfNoTable);
+        CHECKS.sentence("no such TABLE, or ROW", TableEdgesTest::dropOfNoRow);
 
+        CHECKS.under("Promise 5: variety");
+        CHECKS.sentence("`table`: a TABLE", TableEdgesTest::varietyOfThatColumn);
+        CHECKS.sentence("`column`: a COLUMN of it", TableEdgesTest::varietyOfThatColumn);
         CHECKS.sentence("Returns its VARIETY.", TableEdgesTest::varietyWithoutRows);
-        CHECKS.sentence("how many VALUES, each counted once, are in it",
-                TableEdgesTest::eachValueIsCountedOnce);
-        CHECKS.sentence("how many VALUES, each counted once, are in it",
-                TableEdgesTest::varietyBehindDrop);
-        CHECKS.sentence("if there is no such TABLE, or COLUMN", TableEdgesTest::varietyOfNoTable);
-        CHECKS.sentence("if there is no such TABLE, or COLUMN", TableEdgesTest::varietyOfNoColumn);
-        CHECKS.end();
+        CHECKS.sentence("Throws `IndexOutOfBoundsException` if there is no such TABLE,",
+                TableEdgesTest::varietyOfNoTable);
+        CHECKS.sentence("no such TABLE, or COLUMN", TableEdgesTest::varietyOfNoColumn);
     }
 }
