@@ -43,6 +43,10 @@ public final class AnswerEdgesTest {
     private static void eachMeetingIsOne() {
         results(Make.three(), "SELECT 0.1 FROM T0", "10, 20, 10");
         results(Make.three(), "SELECT 0.0 1.0 FROM T0 T2 WHERE 0.1 IS 10", "1 5, 1 6, 3 5, 3 6");
+        results(Make.three(), "SELECT 0.0 FROM T0 T2", "1, 1, 2, 2, 3, 3");
+        results(Make.three(), "SELECT 0.0 FROM T2 T1 WHERE 1.2 IS 7", "5, 5, 6, 6");
+        results(Make.three(), "SELECT 0.0 COUNT FROM T0 T2", "1 6");
+        results(Make.three(), "SELECT SUM 0.0 FROM T0 T2", "12");
         results(Make.three(), "SELECT 0.0 FROM T0 WHERE 0.0 IS 9", "");
         results(Make.sized(0), "SELECT 0.0 FROM T0", "");
         results(Make.sized(2, 0), "SELECT 0.0 FROM T0 T1", "");
@@ -223,6 +227,10 @@ public final class AnswerEdgesTest {
         outside(one, "item of one", 1, item -> one.result(0, item));
         OrchardQuery limited = three("SELECT 0.0 FROM T0 LIMIT 2");
         outside(limited, "result() with LIMIT", 2, place -> limited.result(place, 0));
+        OrchardQuery ordered = three("SELECT 0.0 FROM T0 ORDER 0 LIMIT 2");
+        outside(ordered, "result() with ORDER and LIMIT", 2, place -> ordered.result(place, 0));
+        OrchardQuery groups = three("SELECT 0.0 FROM T0 GROUP 0.0 LIMIT 2");
+        outside(groups, "result() with GROUP and LIMIT", 2, place -> groups.result(place, 0));
         OrchardQuery four = three("SELECT 0.0 0.1 COUNT SUM 0.0 FROM T0");
         outside(four, "item of four", 4, item -> four.result(0, item));
         CHECKS.is("the last of four", four.result(0, 3), 6);
@@ -633,6 +641,7 @@ public final class AnswerEdgesTest {
         CHECKS.under("Promise 23: results");
         CHECKS.sentence("Returns how many RESULTS it has in all.", AnswerEdgesTest::asTheTablesAreNow);
         CHECKS.sentence("how many RESULTS it has in all.", AnswerEdgesTest::whereverOneIs);
+        CHECKS.sentence("how many RESULTS it has in all.", AnswerEdgesTest::noMoreThanLimit);
 
         CHECKS.under("Promise 24: result");
         CHECKS.sentence("`place`: the place of a RESULT, from 0", AnswerEdgesTest::eachPlaceAndItem);

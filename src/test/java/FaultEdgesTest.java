@@ -280,12 +280,14 @@ public final class FaultEdgesTest {
         String[] behind = {"", " ORDER 0", " LIMIT 5", " ORDER 0 LIMIT 5"};
         orNot(" GROUP 0.0", new String[] {""}, behind);
         fault(9, 6, HEAD + " GROUP 0.0 0.1");
+        fault(9, 6, HEAD + " ORDER 0 GROUP 0.0");
         fault(5, 5, HEAD + " GROUP 0");
     }
 
     private static void orderOrNot() {
         orNot(" ORDER 0", new String[] {"", " GROUP 0.0"}, new String[] {"", " LIMIT 5"});
         fault(9, 6, HEAD + " ORDER 0 0");
+        fault(9, 6, HEAD + " LIMIT 5 ORDER 0");
         fault(8, 5, HEAD + " ORDER 0.0");
     }
 

@@ -91,14 +91,25 @@ public final class PlanEdgesTest {
         CHECKS.is("of one", order(three("SELECT 0.0 FROM T2")), "0");
         CHECKS.is("of two", order(three("SELECT 0.0 FROM T2 T1")), "0 1");
         CHECKS.is("of three", order(three("SELECT 0.0 FROM T2 T1 T0")), "0 1 2");
+        OrchardQuery q = three("SELECT 0.0 FROM T2 T1 T0");
+        q.swap(0, 2);
+        q.read();
+        CHECKS.is("as it is READ again", order(q), "0 1 2");
+        q.swap(0, 1);
+        Make.read(q, "SELECT 0.0 FROM T0 T1");
+        CHECKS.is("of another one", order(q), "0 1");
     }
 
     private static void notEmptyAtFirst() {
         CHECKS.is("isEmpty()", three("SELECT 0.0 FROM T0").isEmpty(), false);
         CHECKS.is("isEmpty() of what never holds",
                 three("SELECT 0.0 FROM T0 WHERE 0.0 IS 1 AND 0.0 IS 2 AND 0.0 LESS 0.0").isEmpty(), false);
+        OrchardQuery again = three("SELECT 0.0 FROM T0 WHERE 0.0 LESS 0.0");
+        again.rewrite(NEVER);
+        again.read();
+        CHECKS.is("isEmpty() as it is READ again", again.isEmpty(), false);
         OrchardQuery none = Make.sized(0);
-        Make.read(none, "SELECT 0.0 FROM T0");
+        Make.read(none, "SELECT 0.0 FROM T0 T0 T0");
         CHECKS.is("isEmpty() without rows", none.isEmpty(), false);
         none.rewrite(NEVER);
         CHECKS.is("isEmpty() without rows, behind NEVER", none.isEmpty(), false);

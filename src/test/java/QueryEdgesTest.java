@@ -140,6 +140,17 @@ public final class QueryEdgesTest {
             CHECKS.is("read()", Make.read(q, 0, 100, 1, 20, 6, token), 0);
             CHECKS.is("LIMIT " + token, q.results(), Math.min(9, numbers[i]));
         }
+        OrchardQuery other = Make.tables(2);
+        int[][] rows = {{4, 3}, {2, 5}, {1, 6}};
+        for (int[] row : rows) {
+            other.row(0, row[0], row[1], 0);
+        }
+        String[] dues = {"1 6 6 1, 2 5 5 1, 4 3 3 1", "4 3 3 1, 2 5 5 1, 1 6 6 1",
+            "4 3 3 1, 2 5 5 1, 1 6 6 1", "1 6 6 1, 2 5 5 1, 4 3 3 1"};
+        for (int v = 0; v < 4; v++) {
+            CHECKS.is("read()", Make.read(other, 0, 100, 101, 8, 101, 7, 1, 20, 4, 100, 5, 1000 + v), 0);
+            CHECKS.is("ORDER " + (1000 + v), Make.results(other), dues[v]);
+        }
     }
 
     private static void addedBehindTheOthers() {
@@ -539,13 +550,16 @@ public final class QueryEdgesTest {
     private static void terms() {
         CHECKS.under("Terms");
         CHECKS.sentence("2 A QUERY is a row of at most 40 TOKENS:", QueryEdgesTest::fortyTokens);
+        CHECKS.sentence("2 A QUERY is a row of at most 40 TOKENS:", QueryEdgesTest::a41stToken);
         CHECKS.sentence("0 SELECT, 1 FROM, 2 WHERE, 3 AND, 4 GROUP, 5 ORDER, 6 LIMIT, 7 COUNT, 8 SUM,"
                 + " 9 IS, 10 IS NOT, 11 LESS;", QueryEdgesTest::whatEachWordIs);
         CHECKS.sentence("20 to 24 the TABLES 0 to 4;", QueryEdgesTest::whichTable);
         CHECKS.sentence("20 to 24 the TABLES", QueryEdgesTest::aTableThatIsNotThereIsAToken);
+        CHECKS.sentence("20 to 24", QueryEdgesTest::everyToken);
         CHECKS.sentence("100 + 10 * s + c the COLUMN c (0 to 9) of the SEAT s (0 to 9);",
                 QueryEdgesTest::whichColumn);
         CHECKS.sentence("1000 + v the NUMBER v (0 to 999).", QueryEdgesTest::whichNumber);
+        CHECKS.sentence("the NUMBER v (0 to 999).", QueryEdgesTest::tokensBelowAndAbove);
         CHECKS.sentence("the one that is named first is thrown.", QueryEdgesTest::a41stThatIsNone);
         CHECKS.sentence("A method that throws an exception changes nothing.",
                 QueryEdgesTest::refusedTokenLeavesItRead);

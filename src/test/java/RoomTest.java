@@ -8,7 +8,8 @@ import java.lang.management.ManagementFactory;
 public final class RoomTest {
     private static final int CALLS = 512;
     private static final long BYTES_OF_AN_OBJECT = 16;
-    private static final long BYTES_OF_AN_ELEMENT = 4;
+    /** As many as a long takes: no class that keeps to the room may fail here. */
+    private static final long BYTES_OF_AN_ELEMENT = 8;
     private static final long MOST_BYTES =
             600_000 * BYTES_OF_AN_OBJECT + 7_300_000 * BYTES_OF_AN_ELEMENT;
     private static final Checks CHECKS = new Checks("RoomTest");

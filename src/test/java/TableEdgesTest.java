@@ -255,6 +255,13 @@ public final class TableEdgesTest {
         Make.read(q, "SELECT COUNT SUM 0.0 SUM 0.1 FROM T0");
         CHECKS.is("all are there", Make.results(q), "14 98 -98");
         CHECKS.is("one goes, the others stay", q.drop(0, 3), 13);
+        OrchardQuery other = Make.tables(1, 3);
+        for (int i = 1; i <= 3; i++) {
+            CHECKS.is("rows of one column alike", other.row(0, 5, i, i), i);
+            CHECKS.is("rows of three columns alike", other.row(1, 0, 0, 0), i);
+        }
+        CHECKS.is("all of one column are there", values(other, 0, 1), "5, 5, 5");
+        CHECKS.is("all of three columns are there", values(other, 1, 3), "0 0 0, 0 0 0, 0 0 0");
     }
 
     // ---- Promise 4
@@ -346,6 +353,13 @@ public final class TableEdgesTest {
             CHECKS.is("all alike", q.variety(0, 1), 1);
             CHECKS.is("two of each", q.variety(0, 2), i / 2 + 1);
         }
+        OrchardQuery apart = Make.tables(3);
+        for (int i = 0; i < 14; i++) {
+            apart.row(0, i % 3, i % 2, i * i % 7);
+        }
+        CHECKS.is("those alike are apart", apart.variety(0, 0), 3);
+        CHECKS.is("by turns", apart.variety(0, 1), 2);
+        CHECKS.is("0 1 4 2 2 4 1, twice", apart.variety(0, 2), 4);
         OrchardQuery sign = Make.tables(1);
         sign.row(0, 5, 0, 0);
         sign.row(0, -5, 0, 0);
@@ -413,10 +427,14 @@ public final class TableEdgesTest {
     private static void terms() {
         CHECKS.under("Terms");
         CHECKS.sentence("1 TABLES: at most 5, numbered from 0,", TableEdgesTest::fiveTables);
+        CHECKS.sentence("1 TABLES: at most 5, numbered from 0,", TableEdgesTest::aSixthTable);
         CHECKS.sentence("each with 1 to 3 COLUMNS,", TableEdgesTest::columnsAreOneToThree);
+        CHECKS.sentence("each with 1 to 3 COLUMNS,", TableEdgesTest::columnsBelowAndAbove);
         CHECKS.sentence("COLUMNS, numbered from 0,", TableEdgesTest::columnsAreNumberedFromZero);
         CHECKS.sentence("and at most 14 ROWS", TableEdgesTest::fourteenRows);
+        CHECKS.sentence("and at most 14 ROWS", TableEdgesTest::aFifteenthRow);
         CHECKS.sentence("ROWS of VALUES, -999 to 999;", TableEdgesTest::theLeastAndTheGreatestValue);
+        CHECKS.sentence("ROWS of VALUES, -999 to 999;", TableEdgesTest::valuesBelowAndAbove);
         CHECKS.sentence("ROWS can be alike.", TableEdgesTest::rowsAlike);
         CHECKS.sentence("The VARIETY of a COLUMN is how many VALUES, each counted once, are in it.",
                 TableEdgesTest::eachValueIsCountedOnce);
