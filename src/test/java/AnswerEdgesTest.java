@@ -153,6 +153,25 @@ public final class AnswerEdgesTest {
         results(q, "SELECT SUM 0.0 FROM T0 GROUP 0.0 ORDER 0", "-999, -1, 0, 1, 999");
     }
 
+    /** Sums are less and more than any VALUE is; some lie between others by one alone. */
+    private static void inOrderByGreatSums() {
+        OrchardQuery q = Make.tables(2, 1);
+        int[] values = {999, -999, 998, -998, 1, 0, -1};
+        for (int i = 0; i < 7; i++) {
+            q.row(0, i, values[i], 0);
+            q.row(1, i, 0, 0);
+        }
+        results(q, "SELECT SUM 0.1 0.0 FROM T0 T1 GROUP 0.0 ORDER 0",
+                "-6993 1, -6986 3, -7 6, 0 5, 7 4, 6986 2, 6993 0");
+        results(q, "SELECT SUM 0.1 0.0 FROM T0 T1 T1 GROUP 0.0 ORDER 0 LIMIT 3", "-48951 1, -48902 3, -49 6");
+        OrchardQuery full = Make.tables(2, 1);
+        for (int i = 0; i < 14; i++) {
+            full.row(0, i % 2, i % 2 == 0 ? 999 : -999, 0);
+            full.row(1, 0, 0, 0);
+        }
+        results(full, "SELECT SUM 0.1 0.0 FROM T0 T1 T1 GROUP 0.0 ORDER 0", "-1370628 1, 1370628 0");
+    }
+
     private static void thoseAlikeAsTheyWere() {
         OrchardQuery q = Make.tables(2);
         for (int i = 0; i < 14; i++) {
@@ -326,7 +345,16 @@ public final class AnswerEdgesTest {
         OrchardQuery full = read(Make.sized(14, 14, 14), "SELECT 0.0 FROM T0 T1 T2 WHERE 0.0 ISNOT 99"
                 + " AND 1.0 ISNOT 99 AND 2.0 ISNOT 99 AND 0.0 ISNOT 99 AND 1.0 ISNOT 99 AND 2.0 ISNOT 99");
         CHECKS.is("the most reads", full.wouldDo(0), 2954);
-        CHECKS.is("the most checks", full.wouldDo(1), 2744 * 6);
+        CHECKS.is("the most checks of six", full.wouldDo(1), 2744 * 6);
+        OrchardQuery alike = Make.tables(3, 3, 3);
+        for (int i = 0; i < 42; i++) {
+            alike.row(i % 3, 7, 7, 7);
+        }
+        read(alike, "SELECT COUNT FROM T0 T1 T2 WHERE 0.0 IS 0.1 AND 0.1 IS 0.2 AND 0.2 IS 1.0"
+                + " AND 1.0 IS 1.1 AND 1.1 IS 2.0 AND 2.0 IS 7");
+        CHECKS.is("DRAWN", alike.rewrite(1), 5);
+        CHECKS.is("the most checks", alike.wouldDo(1), 2744 * 11);
+        CHECKS.is("all of them hold", alike.result(0, 0), 2744);
     }
 
     // ---- Promise 26
@@ -551,6 +579,51 @@ public final class AnswerEdgesTest {
                 + " 111 9 1003 1 1 1000 101 10 1999 0 0 0 100 9 1003 0 0 500 0 0 1 0 2 0 0 0 0 0 0"));
     }
 
+    /** The checksum of what the calls themselves answer, in the order that the document has. */
+    private static long sumOfAnswers(OrchardQuery q, String tables) {
+        StringBuilder x = new StringBuilder();
+        for (int what = 0; what <= 4; what++) {
+            x.append(q.many(what)).append(' ');
+        }
+        x.append(tables).append(' ').append(q.faultAt()).append(' ').append(q.isEmpty() ? 1 : 0);
+        for (int i = 0; i < q.many(4); i++) {
+            for (int what = 0; what <= 5; what++) {
+                x.append(' ').append(q.condition(i, what));
+            }
+        }
+        for (int place = 0; place < q.many(3); place++) {
+            x.append(' ').append(q.order(place)).append(' ').append(q.guess(place));
+        }
+        x.append(' ').append(q.cost());
+        for (int what = 0; what <= 2; what++) {
+            x.append(' ').append(q.done(what));
+        }
+        x.append(' ').append(q.results());
+        for (int place = 0; place < q.results() && place < 10; place++) {
+            for (int item = 0; item < q.many(2); item++) {
+                x.append(' ').append(q.result(place, item));
+            }
+        }
+        return sum(x.append(' ').append(q.wouldDo(0)).append(' ').append(q.wouldDo(1)).toString());
+    }
+
+    private static void asTheCallsAnswer() {
+        String tables = "3 1 10 2 20 3 10 3 2 4 1 5 7 1 6 8 2 5 9 4 5 7 3 2 3 2 5 6 2";
+        String[] texts = {"SELECT 0.0 0.1 1.2 2.0 FROM T0 T1 T2 WHERE 0.0 LESS 9 AND 2.0 ISNOT 1.0",
+            "SELECT COUNT 0.0 SUM 1.0 FROM T0 T1 WHERE 0.0 IS 1.0 GROUP 1.2 ORDER 1 LIMIT 2",
+            "SELECT 0.0 1.0 FROM T1 T0 WHERE 0.0 IS 0.1 AND 0.1 IS 1.0 AND 0.0 IS 4 AND 0.0 IS 5"
+                + " AND 0.2 ISNOT 7 AND 1.0 LESS 3", "SELECT 2.0 0.0 FROM T2 T2 T1 LIMIT 11"};
+        String[] changes = {"open; next; next", "rewrite 1; rewrite 2", "swap 0 1; open; next", "best",
+            "rewrite 3; open; next; next", "rewrite 2; swap 1 0; open; next; next; next; next"};
+        for (String text : texts) {
+            for (String change : changes) {
+                OrchardQuery q = three(text);
+                Script.run(q, change);
+                CHECKS.is("of " + text + " behind " + change, q.digest(), sumOfAnswers(q, tables));
+            }
+        }
+    }
+
     /** Each call that many times, as far as there are 512; then all is as in the model. */
     private static void each512Times() {
         String[] calls = {"table 1", "row 0 1 2 3; drop 0 1", "row 0 1000 0 0", "drop 0 9", "variety 0 0",
@@ -631,6 +704,7 @@ public final class AnswerEdgesTest {
                 AnswerEdgesTest::aColumnThatOfItsFirstMeeting);
         CHECKS.sentence("With ORDER they are brought in order by that ITEM, the smallest first,",
                 AnswerEdgesTest::inOrderByThatItem);
+        CHECKS.sentence("in order by that ITEM, the smallest first,", AnswerEdgesTest::inOrderByGreatSums);
         CHECKS.sentence("those that are alike as they were;", AnswerEdgesTest::thoseAlikeAsTheyWere);
         CHECKS.sentence("with LIMIT there are no more than so many, the first ones.",
                 AnswerEdgesTest::noMoreThanLimit);
@@ -699,5 +773,9 @@ public final class AnswerEdgesTest {
         CHECKS.sentence("results(), the ITEMS of the first 10 RESULTS (or all),",
                 AnswerEdgesTest::theFirstTenOrAll);
         CHECKS.sentence("wouldDo() of 0 and 1.", AnswerEdgesTest::ifItIsRead);
+        CHECKS.sentence("if it is READ: isEmpty() (1 or 0), for each CONDITION condition() of 0 to 5,"
+                + " for each place of the ORDER order() and guess(), cost(), done() of 0 to 2, results(),"
+                + " the ITEMS of the first 10 RESULTS (or all), wouldDo() of 0 and 1.",
+                AnswerEdgesTest::asTheCallsAnswer);
     }
 }

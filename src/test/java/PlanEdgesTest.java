@@ -522,6 +522,50 @@ public final class PlanEdgesTest {
         CHECKS.is("what is pulled is not over", q.next(), false);
     }
 
+    private static OrchardQuery twelve() {
+        OrchardQuery q = two("0.0 IS 0.1 AND 0.1 IS 0.2 AND 0.2 IS 1.0"
+                + " AND 0.0 IS 1 AND 0.0 IS 2 AND 0.0 IS 3");
+        CHECKS.is("DRAWN", q.rewrite(DRAWN), 6);
+        return q;
+    }
+
+    private static void asLongAsItCanBeOfTwelve() {
+        OrchardQuery q = twelve();
+        CHECKS.is("DOWN", q.rewrite(DOWN), 11);
+        CHECKS.is("levels behind DOWN", levels(q), "0 0 1 0 0 0 0 0 0 0 0 0");
+        q.swap(0, 1);
+        CHECKS.is("levels behind swap()", levels(q), "1 1 1 1 1 1 1 1 1 1 1 1");
+        q.swap(0, 1);
+        CHECKS.is("levels behind swap() again", levels(q), "1 1 1 1 1 1 1 1 1 1 1 1");
+        q.best();
+        CHECKS.is("levels behind best()", levels(q), each(q, 4));
+        CHECKS.is("TRUE", q.rewrite(TRUE), 0);
+        CHECKS.is("NEVER", q.rewrite(NEVER), 1);
+        OrchardQuery far = two("0.0 IS 0.1 AND 0.1 IS 0.2 AND 0.2 IS 1.0 AND 0.0 IS 1 AND 1.0 IS 2"
+                + " AND 0.0 LESS 5");
+        CHECKS.is("NEVER before DRAWN", far.rewrite(NEVER), 0);
+        CHECKS.is("DRAWN", far.rewrite(DRAWN), 6);
+        CHECKS.is("what is drawn", conditions(far, 6),
+                "0.1 IS 1, 0.2 IS 1, 0.2 IS 2, 0.1 IS 2, 0.0 IS 2, 1.0 IS 1");
+        CHECKS.is("NEVER of what is drawn", far.rewrite(NEVER), 1);
+    }
+
+    /** 14 ROWS: 7, 7, and 7 or 8 by turns. */
+    private static void eightConditionsCount() {
+        OrchardQuery q = Make.tables(3);
+        for (int i = 0; i < 14; i++) {
+            q.row(0, 7, 7, 7 + i % 2);
+        }
+        Make.read(q, "SELECT 0.0 FROM T0 WHERE 0.0 IS 0.1 AND 0.1 IS 0.2 AND 0.0 IS 7 AND 0.0 IS 7"
+                + " AND 0.0 IS 7 AND 0.0 IS 7");
+        CHECKS.is("guess(0) of six", q.guess(0), 7);
+        CHECKS.is("checks of six", q.wouldDo(1), 7 * 2 + 7 * 6);
+        CHECKS.is("DRAWN", q.rewrite(DRAWN), 2);
+        CHECKS.is("guess(0) of eight", q.guess(0), 3);
+        CHECKS.is("checks of eight", q.wouldDo(1), 7 * 2 + 7 * 8);
+        CHECKS.is("results of eight", q.results(), 7);
+    }
+
     // ---- Promise 13: swap
 
     private static void levelsBelowLow() {
@@ -537,6 +581,17 @@ public final class PlanEdgesTest {
         CHECKS.is("levels of 0 2 1", levels(q), "2 2 2 2");
         CHECKS.is("DOWN", q.rewrite(DOWN), 2);
         CHECKS.is("levels behind DOWN", levels(q), "0 2 1 2");
+    }
+
+    private static void levelsBelowLowOfEmpty() {
+        OrchardQuery q = three("SELECT 0.0 FROM T0 T1 T2 WHERE 0.0 LESS 0.0 AND 1.0 IS 1 AND 2.0 IS 5");
+        q.rewrite(NEVER);
+        q.rewrite(DOWN);
+        CHECKS.is("levels", levels(q), "0 1 2");
+        q.swap(0, 2);
+        CHECKS.is("levels behind swap()", levels(q), "2 1 2");
+        q.swap(0, 1);
+        CHECKS.is("levels behind another", levels(q), "2 1 2");
     }
 
     private static void twoPlaces() {
@@ -633,6 +688,12 @@ public final class PlanEdgesTest {
         first.swap(1, 2);
         CHECKS.is("best(), the least at first", first.best(), 26);
         CHECKS.is("its order", order(first), "0 1 2");
+        OrchardQuery third = three("SELECT 0.0 FROM T0 T0 T2");
+        CHECKS.is("best(), the third one at first", third.best(), 26);
+        CHECKS.is("its order", order(third), "2 0 1");
+        OrchardQuery second = three("SELECT 0.0 FROM T0 T2 T0");
+        CHECKS.is("best(), the second one at first", second.best(), 26);
+        CHECKS.is("its order", order(second), "1 0 2");
         OrchardQuery two = three("SELECT 0.0 FROM T1 T1");
         two.swap(0, 1);
         CHECKS.is("best() of two alike", two.best(), 20);
@@ -836,8 +897,11 @@ public final class PlanEdgesTest {
         CHECKS.sentence("and the same COLUMN twice: it is EMPTY.", PlanEdgesTest::neverOfWhatIsDrawn);
         CHECKS.sentence("Each is done again as long as it can be.", PlanEdgesTest::noneAndAllOfThemGo);
         CHECKS.sentence("Each is done again as long as it can be.", PlanEdgesTest::downAlsoOfWhatIsEmpty);
+        CHECKS.sentence("Each is done again as long as it can be.",
+                PlanEdgesTest::asLongAsItCanBeOfTwelve);
         CHECKS.sentence("As the ORDER becomes another one, each CONDITION whose LEVEL is below its LOW"
                 + " has its LOW as LEVEL.", PlanEdgesTest::levelsBelowLow);
+        CHECKS.sentence("each CONDITION whose LEVEL is below its LOW", PlanEdgesTest::levelsBelowLowOfEmpty);
     }
 
     private static void guesses() {
@@ -854,6 +918,7 @@ public final class PlanEdgesTest {
         CHECKS.sentence("times the ROWS of the TABLE of the SEAT at the place k,",
                 PlanEdgesTest::guessesAreAsOfNow);
         CHECKS.sentence("and then, for each CONDITION of this LEVEL,", PlanEdgesTest::ofThisLevelAlone);
+        CHECKS.sentence("for each CONDITION of this LEVEL,", PlanEdgesTest::eightConditionsCount);
         CHECKS.sentence("by numbers, times its PART, / 1000.", PlanEdgesTest::cutAtEachByNumbers);
         CHECKS.sentence("The COST: for each LEVEL the GUESS of the one below, times the ROWS of its TABLE,"
                 + " all together;", PlanEdgesTest::theCostOfEachLevel);

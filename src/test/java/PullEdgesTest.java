@@ -173,6 +173,12 @@ public final class PullEdgesTest {
         pulls(three("SELECT 0.0 FROM T0 WHERE 0.0 LESS 3 LIMIT 999"),
                 "0 0 0, 1 1 1, 2 2 2, end 3 3 2, 3 3 2");
         pulls(three("SELECT 0.0 FROM T0 T1 T2 LIMIT 2"), "0 0 0, 3 0 1, 4 0 2, end 4 0 2, 4 0 2");
+        String full = "SELECT 0.0 FROM T0 T1 T2 LIMIT ";
+        // 14 of the third for each of 71 of the second, and 5 for one more; 14 of these for one of the first
+        CHECKS.is("reads of 999", read(Make.sized(14, 14, 14), full + 999).wouldDo(0), 6 + 72 + 999);
+        CHECKS.is("reads of 998", read(Make.sized(14, 14, 14), full + 998).wouldDo(0), 6 + 72 + 998);
+        CHECKS.is("reads of 15", read(Make.sized(14, 14, 14), full + 15).wouldDo(0), 1 + 2 + 15);
+        CHECKS.is("reads of 14", read(Make.sized(14, 14, 14), full + 14).wouldDo(0), 1 + 1 + 14);
     }
 
     private static void withLimitZeroNothingAtAll() {
